@@ -123,7 +123,10 @@ public final class Lineorders {
         if (program.readOrders(tape, tapeSize) != NONE) {
             throw new IllegalStateException("the tape has a fault");
         }
-        return doOverWhole();
+        calls++;
+        int done = whole.perform(calls);
+        latestReason = whole.reason;
+        return done;
     }
 
     public int keep(int script) throws IndexOutOfBoundsException, IllegalStateException {
@@ -149,7 +152,10 @@ public final class Lineorders {
             throw new IllegalStateException("no script was kept there");
         }
         program.readOrders(scripts[script], scriptSizes[script]);
-        return doOverWhole();
+        calls++;
+        int done = whole.perform(calls);
+        latestReason = whole.reason;
+        return done;
     }
 
     public int stream(int script) throws IndexOutOfBoundsException, IllegalStateException {
@@ -399,13 +405,6 @@ public final class Lineorders {
 
     private boolean isNoScript(int script) {
         return script < 0 || script >= SCRIPTS;
-    }
-
-    private int doOverWhole() {
-        calls++;
-        int done = whole.perform(calls);
-        latestReason = whole.reason;
-        return done;
     }
 
     /** Fills pairs with the row of each line; returns how many pairs there are. */
@@ -724,14 +723,6 @@ public final class Lineorders {
             return true;
         }
 
-        private boolean appendNew(Rows source, int row) {
-            if (!append(source, row, nextId)) {
-                return false;
-            }
-            nextId++;
-            return true;
-        }
-
         /** Puts the lines in the order of their old numbers that is told. */
         private void arrange(int[] order, Text spare) {
             spare.copy(this);
@@ -969,10 +960,6 @@ public final class Lineorders {
 
         private boolean mayStandBehindNone() {
             return (act == 'a' || act == 'r' || act == 'u') && (where == ONE || where == WITHOUT);
-        }
-
-        private boolean moves() {
-            return act == 'm' || act == 't';
         }
 
         private boolean isNotByLine() {
@@ -1594,11 +1581,16 @@ public final class Lineorders {
         }
 
         private void appendRow(int from, int to) {
-            for (int place = from; place < to; place++) {
-                if (place >= 0 && place < matcher.row.length) {
-                    append(matcher.row[place]);
-                }
+            int more = to - from;
+            if (from < 0 || more < 0 || to > matcher.row.length) {
+                return;
             }
+            if (size < 0 || more > built.length - size) {
+                tooLong = true;
+                return;
+            }
+            System.arraycopy(matcher.row, from, built, size, more);
+            size += more;
         }
 
         private void replace(Order order) {
@@ -1687,7 +1679,6 @@ public final class Lineorders {
         private int metCount;
         private int first;
         private int last;
-        private int target;
         private int after;
         private int come;
         private int reason;
@@ -1743,7 +1734,7 @@ public final class Lineorders {
             return done;
         }
 
-        /** Finds the first and the last line of an order, and the one behind m and t. */
+        /** Finds the first and the last line of an order. */
         private int findRange(Order order) {
             int lines = text.rows.count;
             boolean all = order.where == ALL || order.where == WITHOUT && order.takesAll();
@@ -1755,7 +1746,7 @@ public final class Lineorders {
             if (all) {
                 first = 1;
                 last = lines;
-                return lines > 0 || order.takesAll() ? findTarget(order) : NO_LINE;
+                return lines > 0 || order.takesAll() ? DONE : NO_LINE;
             }
             if (order.where == ONE || order.where == TWO) {
                 first = locate(order.first);
@@ -1764,15 +1755,7 @@ public final class Lineorders {
             if (first < 0 || last < 0) {
                 return -Math.min(first, last);
             }
-            if (first > last || first == 0 && !order.mayStandBehindNone()) {
-                return NO_LINE;
-            }
-            return findTarget(order);
-        }
-
-        private int findTarget(Order order) {
-            target = order.moves() ? locate(order.target) : 0;
-            return target < 0 ? -target : DONE;
+            return first > last || first == 0 && !order.mayStandBehindNone() ? NO_LINE : DONE;
         }
 
         /** The line that an address tells; below 0 the reason, taken away from 0, why it is refused. */
@@ -1889,9 +1872,9 @@ public final class Lineorders {
                 case 'l':
                     return leaveOutSame();
                 case 'm':
-                    return move();
+                    return move(locate(order.target));
                 case 't':
-                    return copyLines();
+                    return copyLines(locate(order.target));
                 case 'o': case 'O':
                     return sort(order.number, order.act == 'O');
                 default:
@@ -1977,7 +1960,10 @@ public final class Lineorders {
             return DONE;
         }
 
-        private int move() {
+        private int move(int target) {
+            if (target < 0) {
+                return -target;
+            }
             if (target >= first && target < last) {
                 return NO_LINE;
             }
@@ -2007,7 +1993,10 @@ public final class Lineorders {
             return next;
         }
 
-        private int copyLines() {
+        private int copyLines(int target) {
+            if (target < 0) {
+                return -target;
+            }
             int many = last - first + 1;
             spare.copy(text);
             if (!text.open(target + 1, many)) {
@@ -2102,7 +2091,8 @@ public final class Lineorders {
         private int reason;
         private boolean gone;
         private boolean going;
-        private boolean tooMuchDue;
+        private boolean leaving;
+        private boolean ending;
 
         private ByLine(Program program, Text text, Stores stores, Stores before,
                 Matcher matcher, Changer changer) {
@@ -2114,7 +2104,8 @@ public final class Lineorders {
             this.changer = changer;
             fresh = new Text();
             work = new Rows(1);
-            due = new Rows(MOST_LINES);
+            // With one row more than a text may have it is certain that they are refused as they are put.
+            due = new Rows(MOST_LINES + 1);
             spare = new Rows(MOST_SIGNS);
         }
 
@@ -2124,13 +2115,18 @@ public final class Lineorders {
             takeNext();
             int place = 0;
             for (int step = 0; step <= MOST_BY_LINE + MOST_LINES && going && reason == DONE; step++) {
-                if (place >= 0 && place < program.count) {
+                if (!leaving && place >= 0 && place < program.count) {
                     place = doOrder(place);
-                } else {
-                    finishWork();
-                    takeNext();
-                    place = 0;
+                    continue;
                 }
+                finishWork();
+                if (ending) {
+                    putRest();
+                    break;
+                }
+                takeNext();
+                place = leaving ? place : 0;
+                leaving = false;
             }
             if (reason != DONE) {
                 stores.copy(before);
@@ -2151,6 +2147,8 @@ public final class Lineorders {
             serial = 0;
             come = 0;
             reason = DONE;
+            leaving = false;
+            ending = false;
             for (int index = 0; index < program.count; index++) {
                 Order order = program.orderAt(index);
                 Rows rows = order == null || order.act != 'w' ? null : stores.file(order.number);
@@ -2172,7 +2170,6 @@ public final class Lineorders {
             work.shrink(0);
             work.addRow(text.rows, taken);
             due.shrink(0);
-            tooMuchDue = false;
             gone = false;
             changer.replaced = false;
         }
@@ -2183,17 +2180,15 @@ public final class Lineorders {
                 return;
             }
             putNew(due);
-            if (tooMuchDue) {
-                reason = TOO_MUCH;
-            }
         }
 
         private void putNew(Rows rows) {
             for (int row = 1; row <= rows.count; row++) {
-                if (!fresh.appendNew(rows, row)) {
+                if (!fresh.append(rows, row, fresh.nextId)) {
                     reason = TOO_MUCH;
                     return;
                 }
+                fresh.nextId++;
             }
         }
 
@@ -2266,14 +2261,11 @@ public final class Lineorders {
 
         private int steer(Order order) {
             if (order.act == 'q') {
-                finishWork();
-                putRest();
-                going = false;
+                ending = true;
                 return program.count;
             }
             if (order.act == 'N') {
-                finishWork();
-                takeNext();
+                leaving = true;
                 return order.next;
             }
             if (order.act == ':' || order.act == 'T' && !changer.replaced) {
@@ -2333,6 +2325,9 @@ public final class Lineorders {
                     reason = stores.held.count == 0 ? NOT_HELD : DONE;
                     putDue(stores.held);
                     break;
+                case 'r':
+                    putDue(stores.file(order.number));
+                    break;
                 case 'e':
                     exchange();
                     break;
@@ -2348,9 +2343,8 @@ public final class Lineorders {
         }
 
         private void putDue(Rows rows) {
-            for (int row = 1; row <= rows.count; row++) {
-                // More than a text may have are refused only as they are put into it.
-                tooMuchDue |= !due.addRow(rows, row);
+            for (int row = 1; rows != null && row <= rows.count; row++) {
+                due.addRow(rows, row);
             }
         }
 
@@ -2362,7 +2356,7 @@ public final class Lineorders {
             spare.addRow(work, 1);
             spare.open(2, 1);
             spare.moveRest(1, size);
-            tooMuchDue |= !due.addRow(spare, 2);
+            due.addRow(spare, 2);
             work.cutTo(1, size);
         }
 
@@ -2409,18 +2403,9 @@ public final class Lineorders {
                 case 'k':
                     fresh.setMark(order.number, workId);
                     break;
-                case 'r':
-                    readFile(stores.file(order.number));
-                    break;
                 default:
                     writeFile(stores.file(order.number));
                     break;
-            }
-        }
-
-        private void readFile(Rows rows) {
-            if (rows != null) {
-                putDue(rows);
             }
         }
 
