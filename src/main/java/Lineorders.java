@@ -997,10 +997,6 @@ public final class Lineorders {
             return index >= 0 && index < count && index < orders.length ? orders[index] : null;
         }
 
-        private int kindAt(int element) {
-            return element >= 0 && element < elements && element < kinds.length ? kinds[element] : END;
-        }
-
         private int signAt(int index) {
             return index >= 0 && index < size && index < signs.length ? signs[index] : NONE;
         }
@@ -2013,7 +2009,7 @@ public final class Lineorders {
         private int sort(int place, boolean falling) {
             lineUp(0, 1, text.rows.count);
             for (int line = first + 1; line <= last && line <= numbers.length; line++) {
-                for (int at = line; at > first; at--) {
+                for (int at = line; at > first && at > 1; at--) {
                     int lower = numbers[at - 1];
                     int upper = numbers[at - 2];
                     int compared = text.rows.compareFrom(place, upper, lower);
