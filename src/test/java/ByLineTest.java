@@ -103,6 +103,9 @@ public final class ByLineTest {
         Lineorders z = Check.with("a", "b", "c", "d");
         Check.stream(z, "1,2s/^/x/;1j;1,2s/^/y/");
         check.same("each order has its run", "xab|c|d @3", state(z));
+        plays("a|a", ":A;1,$s/$/x/;/xxx/b;bA", "axxx|axxx @2");
+        plays("a|b", ":A;/x/,/y/s/$/z/;s/$/x/;/xx/b;bA", "axx|bxx @2");
+        plays("a|b", ":A;1,/y/s/$/y/;s/$/x/;/x*x/b;bA", "ayxyx|byxyx @2");
         Lineorders once = Check.with("a", "a");
         Check.stream(once, ":A;1,$s/a/b/;s/b/c/;TA");
         check.same("come to again it holds as it was found", "c|c @2", state(once));
@@ -143,6 +146,8 @@ public final class ByLineTest {
         plays("a|b|c|d", "2,3cx", "a|x|d @3");
         plays("a|b|c|d", "2,9cx", "a @1");
         plays("a|b|c|d", "3,2cx", "a|b|x|d @4");
+        plays("a|b|c|d", "2,2cx", "a|x|c|d @4");
+        plays("a|b|c|d", "/b/,2cx", "a|x|c|d @4");
         plays("a|b|c|d", "/b/,/c/cx|y", "a|x|y|d @4");
         plays("a|b|c|d", "%cx", "x|x|x|x @4");
         plays("a|b|c|d", "2ax;2d;2ay", "a|x|c|d @4");
@@ -351,6 +356,11 @@ public final class ByLineTest {
         check.same("7 comes ahead of 8", 7, x.reason());
         check.same("l is the 361st", -1, Check.stream(x, ">0;>0;>0;>0;>0;>0;>0;>0;1,39b;l"));
         check.same("by 8", 8, x.reason());
+        check.same("l is the 400th", -1, Check.stream(x, ">0;>0;>0;>0;>0;>0;>0;40bA;:A;1,39b;l"));
+        check.same("by 8", 8, x.reason());
+        check.same("q with one more", -1, Check.stream(x, "1a;1q"));
+        check.same("by 4", 4, x.reason());
+        check.same("q", 1, Check.stream(x, "1q"));
         check.same("orders without an end", -1, Check.stream(x, ":A;bA"));
         check.same("by 7", 7, x.reason());
         check.same("out", -1, Check.stream(x, "p;p;p"));
@@ -376,6 +386,14 @@ public final class ByLineTest {
         check.same("by 4", 4, z.reason());
         check.same("refused by another one first", -1, Check.stream(z, "1u;1u;1u;1bX"));
         check.same("by 6", 6, z.reason());
+        Check.run(z, "2,$d");
+        check.same("20 held, a line", 21, z.held() + z.lines());
+        check.same("41 due, and the work goes", -1, Check.stream(z, "u;u;ax;d"));
+        check.same("by 4", 4, z.reason());
+        check.same("40 due, and the work is put", -1, Check.stream(z, "u;u"));
+        check.same("by 4", 4, z.reason());
+        check.same("40 due, and the work goes", 3, Check.stream(z, "u;u;d"));
+        check.same("40 lines", 40, z.lines());
     }
 
     private void deeds() {

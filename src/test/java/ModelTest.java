@@ -18,6 +18,21 @@ public final class ModelTest {
         random = new Random(seed);
         check.topic("seed " + seed);
         gentle = seed % 3 != 0;
+        if (seed % 5 == 0) {
+            crowd(seed & 65535);
+        }
+    }
+
+    /** Begins with about as much as there may be of all. */
+    private void crowd(int seed) {
+        int many = 10 + any(11);
+        m.sample(seed, 20);
+        x.sample(seed, 20);
+        m.sample(seed, many);
+        x.sample(seed, many);
+        type(pick("%h;w1;%p;%p", "1,20h;2,9w1;%p;1,20p", "1h;w0;1,2w1", "2,20h;3,$w2"));
+        m.runTape();
+        x.run();
     }
 
     public static void main(String[] args) {
@@ -217,10 +232,22 @@ public final class ModelTest {
         StringBuilder s = new StringBuilder();
         int many = 1 + any(6);
         boolean labels = any(4) == 0;
+        if (any(8) == 0) {
+            return round();
+        }
         for (int i = 0; i < many; i++) {
             s.append(i == 0 ? "" : ";").append(topOrder(labels));
         }
         return s.toString();
+    }
+
+    /** Orders that go round until something holds. */
+    private String round() {
+        String run = address() + "," + address();
+        String inside = pick(run + "s/" + replacing(), run + pick("c", "a", "i") + rows(), run + "p", run + "j", innerOrder());
+        String grows = pick("s/$/x/", "s/a/b/", "s/^/c/", "z/abc/bca/", "N", "j", "s/./&&/");
+        String stops = pick("/" + pattern() + "/b", "$b", "/xx/b", "T", "/bb/q", "/" + pattern() + "/,$b");
+        return ":A;" + inside + ";" + grows + ";" + stops + ";" + pick("bA", "TA", "TA", "$bA");
     }
 
     private String topOrder(boolean labels) {

@@ -324,6 +324,22 @@ public final class PromiseTest {
         check.same("undo", 39, x.undo());
         x.sample(0, 1);
         check.same("a sample", 40, x.deeds());
+        Lineorders y = new Lineorders();
+        for (int round = 0; round < 3; round++) {
+            for (int deed = 0; deed < 45; deed++) {
+                Check.run(y, (y.lines() == 0 ? "an" : "cn") + deed);
+            }
+            check.same("45 deeds", 40, y.deeds());
+            for (int deed = 43; deed >= 24; deed--) {
+                check.same("undo", deed - 4, y.undo());
+                check.same("as it was ahead", "n" + deed, Check.text(y));
+            }
+            for (int deed = 23; deed >= 4; deed--) {
+                check.same("undoRun of one", 1, y.undoRun());
+                check.same("as it was ahead", "n" + deed, Check.text(y));
+            }
+            check.throwing("the others were dropped", ISE, y::undo);
+        }
     }
 
     private void theText() {

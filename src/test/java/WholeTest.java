@@ -276,12 +276,27 @@ public final class WholeTest {
         does("c|b|a", 1, "%o1", "c|b|a @3");
         does("c|b|a", 1, "%O99", "c|b|a @3");
         does("c|b|a", 3, "2o0", "c|b|a @2");
+        Lineorders full = new Lineorders();
+        full.sample(1, 20);
+        full.sample(2, 18);
+        Check.run(full, "0a;$az;%O0");
+        for (int line = 2; line <= 40; line++) {
+            check.holds("falling at " + line, rowOf(full, line - 1).compareTo(rowOf(full, line)) >= 0);
+        }
+        Check.run(full, "%o0");
+        for (int line = 2; line <= 40; line++) {
+            check.holds("in order at " + line, rowOf(full, line - 1).compareTo(rowOf(full, line)) <= 0);
+        }
         Lineorders x = Check.with("b", "a", "b", "a");
         Check.run(x, "1ka;4kb;%o0");
         check.same("alike ones stay in their order", "1 3 0 2", Check.ids(x));
         check.same("marks go with them", "3 2 -1 -1 -1", Check.marks(x));
         Check.run(x, "%O0");
         check.same("also the other way round", "0 2 1 3", Check.ids(x));
+    }
+
+    private static String rowOf(Lineorders x, int line) {
+        return Check.text(x).split("\\|", -1)[line - 1];
     }
 
     private void movingAndCopying() {
@@ -336,6 +351,8 @@ public final class WholeTest {
         does("abc", 1, "s/()/x/2", "axbc @1");
         does("baac", 1, "s/(a*)/x/g", "bx @1");
         does("aabab", 1, "s/^a/x/g", "xabab @1");
+        does("aaaaaaaaaaaaaaaaaaaaaaaaaaaaaa", 1, "s/a/b/g", "bbbbbbbbbbbbbbbbbbbbbbbbbbbbbb @1");
+        does("aaaaaaaaaaaaaaaaaaaaaaaaaaaaa", 1, "s/$/b/g", "aaaaaaaaaaaaaaaaaaaaaaaaaaaaab @1");
         does("a|b|ca", 1, "%s/a/x/", "x|b|cx @3");
         does("a|b|ca", 3, "1,2s/a/x/", "x|b|ca @2");
         does("a|b|ca", 3, "1s/q/x/", "a|b|ca @1");
@@ -441,6 +458,13 @@ public final class WholeTest {
 
     private void counting() {
         check.topic("how orders are counted");
+        Lineorders full = new Lineorders();
+        full.sample(1, 20);
+        full.sample(2, 9);
+        check.same("2 and 29 times 2 are 60", 2, Check.run(full, "p;%{=;>0}"));
+        check.same("none refused", 0, full.reason());
+        check.same("3 and 29 times 2 are 61", 2, Check.run(full, "p;p;%{=;>0}"));
+        check.same("the last one is refused", 7, full.reason());
         Lineorders x = Check.with("a", "b", "c");
         check.same("60 orders", 60, Check.run(x, ":A;=;bA"));
         check.same("a 61st one", 7, x.reason());
