@@ -134,6 +134,14 @@ public final class FaultTest {
         finds("(.)\\1", "abc", "-1");
         finds("()a\\1", "ba", "1-2");
         finds("0", "a0", "1-2");
+        Lineorders x = Check.with("aaaa", "a", "aaaaaaaaaaaaaaaaaaaaaaaaaaaaaa");
+        Check.type(x, "^(a)\\1");
+        check.same("aa in aaaa", 0, x.findStart(1));
+        check.same("aa in a, behind aaaa", -1, x.findStart(2));
+        Check.type(x, "*(a)\\1\\1$");
+        check.same("aaa at the end of 30 characters", 30, x.findEnd(3));
+        Check.type(x, "**(a)\\1");
+        check.same("a twice at the end", 30, x.findEnd(3));
     }
 
     private void choiceOfMatches() {

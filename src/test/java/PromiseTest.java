@@ -329,7 +329,8 @@ public final class PromiseTest {
             for (int deed = 0; deed < 45; deed++) {
                 Check.run(y, (y.lines() == 0 ? "an" : "cn") + deed);
             }
-            check.same("45 deeds", 40, y.deeds());
+            Check.run(y, "T;9p");
+            check.same("45 deeds, and what is none", 40, y.deeds());
             for (int deed = 43; deed >= 24; deed--) {
                 check.same("undo", deed - 4, y.undo());
                 check.same("as it was ahead", "n" + deed, Check.text(y));
