@@ -23,13 +23,13 @@ public final class ByLineTest {
         System.exit(test.check.close());
     }
 
-    private static String state(Lineorders x) {
+    private static String state(Subject x) {
         return Check.text(x) + " @" + x.present() + (x.reason() == 0 ? "" : " !" + x.reason());
     }
 
     /** Plays orders line by line with a text of these lines, of which the first is present. */
     private void plays(String lines, String orders, String due) {
-        Lineorders x = Check.with(lines.split("\\|", -1));
+        Subject x = Check.with(lines.split("\\|", -1));
         Check.run(x, "1p");
         x.clearOut();
         Check.stream(x, orders);
@@ -76,7 +76,7 @@ public final class ByLineTest {
         plays("a|b|c|d", ".,.s/^/x/", "xa|xb|xc|xd @4");
         plays("a|b|c|d", "/b/,/c/d", "a|d @2");
         plays("a|b|c|d", "s/b/c/;/c/,/d/s/^/x/", "a|xc|xc|xd @4");
-        Lineorders x = Check.with("a", "b", "c", "d");
+        Subject x = Check.with("a", "b", "c", "d");
         Check.run(x, "2ka;3kb");
         Check.stream(x, "'a,'bs/^/x/");
         check.same("by marks", "a|xb|xc|d @4", state(x));
@@ -94,25 +94,25 @@ public final class ByLineTest {
         plays("b|a|c|a|c", "3b;/b/,/c/s/^/x/", "xb|xa|c|xa|xc @5");
         // Within one work a run is found once, though the work changes.
         plays("b|c", ":A;/b/,/c/s/^/x/2;s/b/bb/;/bbbb/b;/b/bA", "bbbb|c @2");
-        Lineorders x = Check.with("b", "c", "b", "e");
+        Subject x = Check.with("b", "c", "b", "e");
         Check.stream(x, "j;1,2s/^/x/;3,9s/^/y/");
         check.same("the number of a joined work", "bc|be @2", state(x));
-        Lineorders y = Check.with("a", "b", "c", "d");
+        Subject y = Check.with("a", "b", "c", "d");
         Check.stream(y, "1j;2,3s/^/x/");
         check.same("number 2 behind j", "xab|xc|d @3", state(y));
-        Lineorders z = Check.with("a", "b", "c", "d");
+        Subject z = Check.with("a", "b", "c", "d");
         Check.stream(z, "1,2s/^/x/;1j;1,2s/^/y/");
         check.same("each order has its run", "xab|c|d @3", state(z));
         plays("a|a", ":A;1,$s/$/x/;/xxx/b;bA", "axxx|axxx @2");
         plays("a|b", ":A;/x/,/y/s/$/z/;s/$/x/;/xx/b;bA", "axx|bxx @2");
         plays("a|b", ":A;1,/y/s/$/y/;s/$/x/;/x*x/b;bA", "ayxyx|byxyx @2");
-        Lineorders once = Check.with("a", "a");
+        Subject once = Check.with("a", "a");
         Check.stream(once, ":A;1,$s/a/b/;s/b/c/;TA");
         check.same("come to again it holds as it was found", "c|c @2", state(once));
-        Lineorders again = Check.with("a", "c");
+        Subject again = Check.with("a", "c");
         Check.stream(again, ":A;/a/,/q/s/$/x/;s/a/b/;TB;b;:B;/xx/b;bA");
         check.same("as it was found then", "bxx|cxx @2", state(again));
-        Lineorders one = Check.with("a", "c");
+        Subject one = Check.with("a", "c");
         Check.stream(one, ":A;/a/s/$/x/;s/a/b/;TA");
         check.same("a where with one address is looked at each time", "bx|c @2", state(one));
     }
@@ -125,13 +125,13 @@ public final class ByLineTest {
         plays("abc|d", "v1;s/a/x/", "x|bc|d @3");
         plays("abc|d", "v1;v0", "|bc|a||d @5");
         plays("abc|d", "v3", "abc|d @2");
-        Lineorders x = Check.with("a", "b");
+        Subject x = Check.with("a", "b");
         Check.run(x, "1,2h;2w1");
         Check.stream(x, "1u;2r1;2r0;aq");
         check.same("u and r are due", "a|a|b|q|b|b|q @7", state(x));
         check.same("ids as they are put", "0 2 3 4 1 5 6", Check.ids(x));
         check.same("held stays", "a|b", Check.held(x));
-        Lineorders y = Check.with("a", "b");
+        Subject y = Check.with("a", "b");
         Check.stream(y, "ap;iq;v0");
         check.same("the text", "q|" + "|p|a|q||p|b", Check.text(y));
         check.same("ids of i come first", "2 0 3 4 5 1 6 7", Check.ids(y));
@@ -154,7 +154,7 @@ public final class ByLineTest {
         plays("a|b|c|d", "2ax;2iy;2cz", "a|y|z|x|c|d @6");
         plays("a|b", "{ax;d;ay};az", "x|x @2");
         plays("a|b", "g/a/{cx;ay};s/b/z/", "x|z @2");
-        Lineorders x = Check.with("a", "b", "c");
+        Subject x = Check.with("a", "b", "c");
         check.same("behind d no orders are come to", 1 + 3 + 3, Check.stream(x, "1d;p;p"));
         check.same("the out", "b|b|c|c", Check.out(x));
         check.same("the lines are the same", "1 2", Check.ids(x));
@@ -172,7 +172,7 @@ public final class ByLineTest {
         plays("a|b|c", "1j;2s/$/x/;3s/$/y/", "abx|cy @2");
         plays("012345678901234|012345678901234|x", "1j", "012345678901234012345678901234|x @2");
         plays("012345678901234|0123456789012345|x", "1j", "012345678901234|0123456789012345|x @1 !4");
-        Lineorders x = Check.with("a", "b", "c");
+        Subject x = Check.with("a", "b", "c");
         Check.run(x, "1ka;2kb;3kc");
         Check.stream(x, "1j;=");
         check.same("the marks", "1 -1 2 -1 -1", Check.marks(x));
@@ -182,7 +182,7 @@ public final class ByLineTest {
 
     private void holding() {
         check.topic("h H e");
-        Lineorders x = Check.with("a", "b", "c");
+        Subject x = Check.with("a", "b", "c");
         Check.stream(x, "h");
         check.same("h", "c", Check.held(x));
         Check.stream(x, "H");
@@ -193,7 +193,7 @@ public final class ByLineTest {
         check.same("e", "a|a|b @3", state(x));
         check.same("held", "c", Check.held(x));
         check.same("the same lines", "0 1 2", Check.ids(x));
-        Lineorders y = Check.with("a", "b");
+        Subject y = Check.with("a", "b");
         check.same("e with none", -1, Check.stream(y, "2e"));
         check.same("is refused", 5, y.reason());
         check.same("u with none", -1, Check.stream(y, "u"));
@@ -205,7 +205,7 @@ public final class ByLineTest {
 
     private void printing() {
         check.topic("p n = z > <");
-        Lineorders x = Check.with("a", "b");
+        Subject x = Check.with("a", "b");
         Check.stream(x, "p;n;=;s/*/x/;p");
         check.same("the out", "a|1 a|1|x|b|2 b|2|x", Check.out(x));
         x.clearOut();
@@ -217,7 +217,7 @@ public final class ByLineTest {
 
     private void files() {
         check.topic("r w");
-        Lineorders x = Check.with("a", "b", "c");
+        Subject x = Check.with("a", "b", "c");
         Check.run(x, "w0;w1");
         Check.stream(x, "/[ac]/w0");
         check.same("w", "a|c", Check.file(x, 0));
@@ -231,7 +231,7 @@ public final class ByLineTest {
         check.same("r has what is there by then", "ax|bx|cx|a|ax|b|bx|c|cx @9", state(x));
         check.same("refused", -1, Check.stream(x, "w2;$u"));
         check.same("the file is as it was", "a|ax|b|bx|c|cx", Check.file(x, 2));
-        Lineorders y = new Lineorders();
+        Subject y = new Subject();
         Check.run(y, "aa;w0;d");
         Check.stream(y, "w0");
         check.same("without lines", 0, y.fileRows(0));
@@ -247,7 +247,7 @@ public final class ByLineTest {
         plays("a|b|a", "g/./{1,2s/^/x/;/b/s/$/y/}", "xa|xby|a @3");
         plays("a|b|a", "2,3g/a/ax", "a|b|a|x @4");
         plays("a|b|a", "g/a/{ax;d};s/b/y/", "x|y|x @3");
-        Lineorders x = Check.with("a", "b");
+        Subject x = Check.with("a", "b");
         check.same("those of a block are come to only in it", 2 + 2 + 2, Check.stream(x, "g/a/{p;=};p"));
     }
 
@@ -267,7 +267,7 @@ public final class ByLineTest {
         plays("a|b|c", "2ay;2q;s/*/x/", "x|b|y|c @4");
         plays("a|b|c", "q", "a|b|c @3");
         plays("a|b|c", "/b/q;d", "b|c @2");
-        Lineorders x = Check.with("a", "b", "c");
+        Subject x = Check.with("a", "b", "c");
         Check.run(x, "3ka");
         check.same("behind q none is come to", 3 + 2, Check.stream(x, "p;2q;="));
         check.same("the marks", 3, x.mark(0));
@@ -285,14 +285,14 @@ public final class ByLineTest {
         plays("a|b|c|d", ":A;N;bA", "a|b|c|d @4");
         plays("a|b|c|d", "1,2s/^/x/;N;1,2s/^/y/", "xa|b|c|d @4");
         plays("a|b|c|d", "N;d", "a|c @2");
-        Lineorders x = Check.with("a", "b", "c");
+        Subject x = Check.with("a", "b", "c");
         check.same("orders that are come to", 3 + 2, Check.stream(x, "=;N;="));
         check.same("the numbers", "1|2|3", Check.out(x));
     }
 
     private void marks() {
         check.topic("marks");
-        Lineorders x = Check.with("a", "b", "c");
+        Subject x = Check.with("a", "b", "c");
         Check.run(x, "1ka;2kb;3kc");
         Check.stream(x, "ix;2d");
         check.same("marks go with their lines", "2 -1 5 -1 -1", Check.marks(x));
@@ -322,7 +322,7 @@ public final class ByLineTest {
         plays("a|b", "g/q/m0", "a|b @2");
         plays("a|b", "2u;l", "a|b @1 !8");
         plays("a|b", "u;l", "a|b @1 !5");
-        Lineorders x = Check.with("a", "b");
+        Subject x = Check.with("a", "b");
         Check.run(x, "1ka");
         check.same("refused", -1, Check.stream(x, "s/*/x/;h;p;w0;ke;ay;iz;2u;2bX"));
         check.same("the text stays", "a|b @2 !6", state(x));
@@ -335,7 +335,7 @@ public final class ByLineTest {
 
     private void limits() {
         check.topic("too many line by line");
-        Lineorders x = new Lineorders();
+        Subject x = new Subject();
         x.sample(1, 20);
         check.same("20 more", 20, Check.stream(x, "a"));
         check.same("40 lines", 40, x.lines());
@@ -371,7 +371,7 @@ public final class ByLineTest {
         check.same("by 4", 4, x.reason());
         check.same("a file", -1, Check.stream(x, "w0;40w0"));
         check.same("by 4", 4, x.reason());
-        Lineorders y = Check.with("0123456789012345678901234567", "x");
+        Subject y = Check.with("0123456789012345678901234567", "x");
         check.same("n with 30 characters", 2, Check.stream(y, "n"));
         check.same("> with 31", -1, Check.stream(y, ">3"));
         check.same("by 4", 4, y.reason());
@@ -379,7 +379,7 @@ public final class ByLineTest {
         Check.stream(y, "1>1");
         check.same("n with 31", -1, Check.stream(y, "n"));
         check.same("by 4", 4, y.reason());
-        Lineorders z = Check.with("a");
+        Subject z = Check.with("a");
         z.sample(3, 20);
         Check.run(z, "2,$h;1p");
         check.same("60 rows due, but nothing else", -1, Check.stream(z, "1u;1u;1u"));
@@ -398,7 +398,7 @@ public final class ByLineTest {
 
     private void deeds() {
         check.topic("deeds line by line");
-        Lineorders x = Check.with("a", "b");
+        Subject x = Check.with("a", "b");
         Check.stream(x, "s/*/x/;ay");
         check.same("one deed", 3, x.deeds());
         check.same("undo", 2, x.undo());

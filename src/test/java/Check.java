@@ -52,50 +52,50 @@ final class Check {
     }
 
     /** Wipes the tape and types these signs. */
-    static void type(Lineorders x, String signs) {
+    static void type(Subject x, String signs) {
         x.wipe();
         for (int i = 0; i < signs.length(); i++) {
             x.type(signs.charAt(i));
         }
     }
 
-    static int run(Lineorders x, String orders) {
+    static int run(Subject x, String orders) {
         type(x, orders);
         return x.run();
     }
 
-    static int keep(Lineorders x, int script, String orders) {
+    static int keep(Subject x, int script, String orders) {
         type(x, orders);
         return x.keep(script);
     }
 
-    static int stream(Lineorders x, String orders) {
+    static int stream(Subject x, String orders) {
         keep(x, 3, orders);
         return x.stream(3);
     }
 
     static int fault(String orders) {
-        Lineorders x = new Lineorders();
+        Subject x = new Subject();
         type(x, orders);
         return x.fault();
     }
 
     static int patternFault(String pattern) {
-        Lineorders x = new Lineorders();
+        Subject x = new Subject();
         type(x, pattern);
         return x.patternFault();
     }
 
     /** A new object with these lines; the last one is present. */
-    static Lineorders with(String... lines) {
-        Lineorders x = new Lineorders();
+    static Subject with(String... lines) {
+        Subject x = new Subject();
         for (String line : lines) {
             run(x, "$a" + line);
         }
         return x;
     }
 
-    static String text(Lineorders x) {
+    static String text(Subject x) {
         StringBuilder all = new StringBuilder();
         for (int line = 1; line <= x.lines(); line++) {
             all.append(line == 1 ? "" : "|");
@@ -106,7 +106,7 @@ final class Check {
         return all.toString();
     }
 
-    static String ids(Lineorders x) {
+    static String ids(Subject x) {
         StringBuilder all = new StringBuilder();
         for (int line = 1; line <= x.lines(); line++) {
             all.append(line == 1 ? "" : " ").append(x.id(line));
@@ -114,7 +114,7 @@ final class Check {
         return all.toString();
     }
 
-    static String marks(Lineorders x) {
+    static String marks(Subject x) {
         StringBuilder all = new StringBuilder();
         for (int mark = 0; mark < 5; mark++) {
             all.append(mark == 0 ? "" : " ").append(x.mark(mark));
@@ -122,7 +122,7 @@ final class Check {
         return all.toString();
     }
 
-    static String held(Lineorders x) {
+    static String held(Subject x) {
         StringBuilder all = new StringBuilder();
         for (int row = 1; row <= x.held(); row++) {
             all.append(row == 1 ? "" : "|");
@@ -133,7 +133,7 @@ final class Check {
         return all.toString();
     }
 
-    static String out(Lineorders x) {
+    static String out(Subject x) {
         StringBuilder all = new StringBuilder();
         for (int row = 1; row <= x.outs(); row++) {
             all.append(row == 1 ? "" : "|");
@@ -144,7 +144,7 @@ final class Check {
         return all.toString();
     }
 
-    static String file(Lineorders x, int file) {
+    static String file(Subject x, int file) {
         StringBuilder all = new StringBuilder();
         for (int row = 1; row <= x.fileRows(file); row++) {
             all.append(row == 1 ? "" : "|");

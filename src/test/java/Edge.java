@@ -17,7 +17,7 @@ final class Edge {
     }
 
     /** All that can be asked, but for the tape and the reason. */
-    static String all(Lineorders x) {
+    static String all(Subject x) {
         StringBuilder all = new StringBuilder();
         all.append("text ").append(x.lines()).append(' ').append(Check.text(x)).append(" ids ").append(Check.ids(x));
         all.append(" present ").append(x.present()).append(" marks ").append(Check.marks(x));
@@ -36,13 +36,13 @@ final class Edge {
     }
 
     /** The text, and the present line behind it. */
-    static String state(Lineorders x) {
+    static String state(Subject x) {
         return Check.text(x) + " @" + x.present();
     }
 
     /** A text of lines without characters. */
-    static Lineorders empties(int many) {
-        Lineorders x = new Lineorders();
+    static Subject empties(int many) {
+        Subject x = new Subject();
         if (many > 0) {
             Check.run(x, "a" + "|".repeat(many - 1));
         }
@@ -50,42 +50,44 @@ final class Edge {
     }
 
     /** A text of these lines, parted by bars, and with this present line. */
-    static Lineorders text(String lines, int present) {
-        Lineorders x = Check.with(lines.split("\\|", -1));
+    static Subject text(String lines, int present) {
+        Subject x = Check.with(lines.split("\\|", -1));
         Check.run(x, present + ">0");
         return x;
     }
 
     /** None of the orders is refused. */
-    void allowed(Lineorders x, String orders) {
+    void allowed(Subject x, String orders) {
         Check.run(x, orders);
         check.same(orders + " is not refused", 0, x.reason());
+        check.holds(orders + ": all is sound", x.isSound());
     }
 
-    void allowed(Lineorders x, String orders, String due) {
+    void allowed(Subject x, String orders, String due) {
         allowed(x, orders);
         check.same(orders, due, state(x));
     }
 
     /** The first one of the orders is refused, for this reason, and all stays. */
-    void refused(Lineorders x, String orders, int why) {
+    void refused(Subject x, String orders, int why) {
         String ahead = all(x);
         check.same(orders + ": how many were not refused", 0, Check.run(x, orders));
         check.same(orders + ": the reason", why, x.reason());
         check.same(orders + ": all stays", ahead, all(x));
     }
 
-    void allowedByLine(Lineorders x, String orders) {
+    void allowedByLine(Subject x, String orders) {
         check.holds(orders + " line by line", Check.stream(x, orders) >= 0);
         check.same(orders + " line by line is not refused", 0, x.reason());
+        check.holds(orders + " line by line: all is sound", x.isSound());
     }
 
-    void allowedByLine(Lineorders x, String orders, String due) {
+    void allowedByLine(Subject x, String orders, String due) {
         allowedByLine(x, orders);
         check.same(orders + " line by line", due, state(x));
     }
 
-    void refusedByLine(Lineorders x, String orders, int why) {
+    void refusedByLine(Subject x, String orders, int why) {
         Check.keep(x, 3, orders);
         String ahead = all(x);
         check.same(orders + " line by line", Lineorders.NONE, x.stream(3));
@@ -94,14 +96,14 @@ final class Edge {
     }
 
     /** The next line that is made gets this id; the deed of it is undone. */
-    void nextId(Lineorders x, int due) {
+    void nextId(Subject x, int due) {
         Check.run(x, "0a");
         check.same("the id that is given next", due, x.id(1));
         x.undo();
     }
 
     /** The call throws this exception, and all stays. */
-    void throwing(Lineorders x, String what, Class<? extends RuntimeException> due, Check.Call call) {
+    void throwing(Subject x, String what, Class<? extends RuntimeException> due, Check.Call call) {
         String ahead = all(x);
         int reason = x.reason();
         check.throwing(what, due, call);
@@ -141,7 +143,7 @@ final class Edge {
 
     /** Where the find of a pattern in a row is. */
     void finds(String pattern, String row, int start, int end) {
-        Lineorders x = Check.with(row);
+        Subject x = Check.with(row);
         Check.type(x, pattern);
         check.same("findStart of " + pattern + " in [" + row + "]", start, x.findStart(1));
         check.same("findEnd of " + pattern + " in [" + row + "]", end, x.findEnd(1));

@@ -56,7 +56,7 @@ public final class EdgeByLineTest {
         plays("a|b|c", "d", " @0");
         plays("a|b|c", "$ax|y", "a|b|c|x|y @5");
         plays("a|b|c", "q", "a|b|c @3");
-        Lineorders x = new Lineorders();
+        Subject x = new Subject();
         check.same("a text without lines", 0, Check.stream(x, "ax;u;bX;l"));
         check.same("none was refused", 0, x.reason());
         check.same("present", 0, x.present());
@@ -66,14 +66,14 @@ public final class EdgeByLineTest {
     private void allOrNothing() {
         edge.sentence("5: if anything is refused, nothing of all this is done, and the reason is told");
         for (String last : new String[] {"l", "bX", "u", ">99"}) {
-            Lineorders x = Edge.text("a|b|c", 2);
+            Subject x = Edge.text("a|b|c", 2);
             Check.run(x, "1ka;2w1;p");
             int why = last.equals("l") ? 8 : last.equals("bX") ? 6 : last.equals("u") ? 5 : 4;
             boolean atOnce = last.equals("l");
             edge.refusedByLine(x, "s/a/x/;p;kb;w1;w2;ay;iz;1d;j;" + (atOnce ? "" : "/c/") + last, why);
             edge.nextId(x, 3);
         }
-        Lineorders x = Edge.text("a|b|c", 2);
+        Subject x = Edge.text("a|b|c", 2);
         Check.run(x, "1,2h");
         edge.refusedByLine(x, "h;H;H;2e", 5);
         check.same("held is what it was", "a|b", Check.held(x));
@@ -102,7 +102,7 @@ public final class EdgeByLineTest {
         edge.sentence("5: a 401st order is refused, by 7, ahead of all else");
         String eight = ">0" + ";>0".repeat(7);
         String nine = eight + ";>0";
-        Lineorders x = Edge.empties(40);
+        Subject x = Edge.empties(40);
         check.same("40 times 10", 400, Check.stream(x, nine + ";9>0"));
         check.same("400 are allowed", 0, x.reason());
         edge.refusedByLine(x, nine + ";40{=}", 7);
@@ -111,24 +111,26 @@ public final class EdgeByLineTest {
         edge.refusedByLine(x, nine + ";40{u}", 7);
         edge.refusedByLine(x, nine + ";40l", 8);
         edge.refusedByLine(x, nine + ";40bX", 6);
-        check.same("the first line has 9, the others 10, the last one 11", 400, Check.stream(x, eight + ";1b;40{9=}"));
-        edge.refusedByLine(x, eight + ";1b;40{m0}", 8);
-        edge.refusedByLine(x, eight + ";1b;40{u}", 5);
-        edge.refusedByLine(x, ":A;bA", 7);
+        Subject one = Edge.empties(40);
+        check.same("the first line has 9, the others 10, the last one 11", 400, Check.stream(one, eight + ";1b;40{9=}"));
+        edge.refusedByLine(one, eight + ";1b;40{m0}", 8);
+        edge.refusedByLine(one, eight + ";1b;40{u}", 5);
+        edge.refusedByLine(one, ":A;bA", 7);
         edge.refusedByLine(Edge.empties(1), ":A;s/$/a/;bA", 4);
         edge.sentence("5: each order that is come to counts as one, also those in blocks and behind g and G");
-        check.same("in a block", 400, Check.stream(x, eight + ";{9=}"));
-        edge.refusedByLine(x, nine + ";{9=}", 7);
-        edge.refusedByLine(x, nine + ";g/^$/9=", 7);
-        check.same("behind g, if the pattern is not held", 400, Check.stream(x, nine + ";g/a/9="));
-        check.same("a block behind g is none itself", 400, Check.stream(x, eight + ";g/^$/{9=}"));
-        edge.refusedByLine(x, eight + ";G/a/{9=;9=}", 7);
-        check.same("with q", 400, Check.stream(x, nine + ";$q"));
+        Subject y = Edge.empties(40);
+        check.same("in a block", 400, Check.stream(y, eight + ";{9=}"));
+        edge.refusedByLine(y, nine + ";{9=}", 7);
+        edge.refusedByLine(y, nine + ";g/^$/9=", 7);
+        check.same("behind g, if the pattern is not held", 400, Check.stream(y, nine + ";g/a/9="));
+        check.same("a block behind g is none itself", 400, Check.stream(y, eight + ";g/^$/{9=}"));
+        edge.refusedByLine(y, eight + ";G/a/{9=;9=}", 7);
+        check.same("with q", 400, Check.stream(y, nine + ";$q"));
     }
 
     private void idsAndMarks() {
         edge.sentence("5: new lines get ids as they are put into the new text; marks go with their lines");
-        Lineorders x = Edge.text("a|b", 1);
+        Subject x = Edge.text("a|b", 1);
         Check.run(x, "1ka;2kb");
         edge.allowedByLine(x, "ax;iy;az", "y|a|x|z|y|b|x|z @8");
         check.same("ids", "2 0 3 4 5 1 6 7", Check.ids(x));
@@ -177,7 +179,7 @@ public final class EdgeByLineTest {
         plays("a|b", "%s/$/x/", "ax|bx @2");
         plays("a|b", ".s/$/x/", "ax|bx @2");
         edge.sentence("5: a mark holds, if it stands at the work; a pattern, if the work holds it");
-        Lineorders x = Edge.text("a|b|c", 1);
+        Subject x = Edge.text("a|b|c", 1);
         edge.allowedByLine(x, "'as/$/x/", "a|b|c @3");
         Check.run(x, "2ka");
         edge.allowedByLine(x, "'as/$/x/", "a|bx|c @3");
@@ -223,7 +225,7 @@ public final class EdgeByLineTest {
         plays("a|b|c|d", ".,/c/s/$/x/", "ax|bx|cx|dx @4");
         plays("a|b|c|d", ".,2s/$/x/", "ax|bx|cx|dx @4");
         plays("a|b|c|d", "1,?c?s/$/x/", "ax|bx|cx|d @4");
-        Lineorders x = Edge.text("a|b|c|d", 1);
+        Subject x = Edge.text("a|b|c|d", 1);
         Check.run(x, "2ka;3kb;1kc");
         edge.allowedByLine(x, "'a,'bs/$/x/", "a|bx|cx|d @4");
         edge.allowedByLine(x, "'a,'as/$/y/", "a|bxy|cxy|dy @4");
@@ -233,10 +235,15 @@ public final class EdgeByLineTest {
         edge.allowedByLine(x, "2,'bs/$/r/", "a|bxyzr|cxyzqr|dyz @4");
         edge.sentence("5: a run is each order's own, and each play's own");
         plays("a|b|c|d", "1,2s/$/x/;2,3s/$/y/", "ax|bxy|cy|d @4");
-        Lineorders y = Edge.text("a|b|c", 1);
+        Subject y = Edge.text("a|b|c", 1);
         edge.allowedByLine(y, "2,9s/$/x/", "a|bx|cx @3");
         check.same("played again", 3, y.stream(3));
         check.same("it begins anew", "a|bxx|cxx @3", Edge.state(y));
+        Subject one = Edge.text("a", 1);
+        edge.allowedByLine(one, "1,2s/$/x/", "ax @1");
+        edge.allowedByLine(one, "1,2s/$/x/", "axx @1");
+        edge.allowedByLine(one, "2,1s/$/x/", "axx @1");
+        edge.allowedByLine(one, "1,1s/$/x/", "axxx @1");
     }
 
     private void lookedAtOnce() {
@@ -281,7 +288,7 @@ public final class EdgeByLineTest {
 
     private void asForARange() {
         edge.sentence("5: s, z, >, <, n (its number), h, H (its row), k, p, = (its number) as for a range of that line alone");
-        Lineorders x = Edge.text("a|b|c", 1);
+        Subject x = Edge.text("a|b|c", 1);
         edge.allowedByLine(x, "n;=;p", "a|b|c @3");
         check.same("the out", "1 a|1|a|2 b|2|b|3 c|3|c", Check.out(x));
         edge.allowedByLine(x, "2h;3H", "a|b|c @3");
@@ -293,7 +300,7 @@ public final class EdgeByLineTest {
         edge.allowedByLine(x, "%>2;2<1;3<9;z/abc/xyz/", "  x| y|z @3");
         plays("aa|a", "s/a/b/2", "ab|a @2");
         plays("aab", "z/aba/xyz/", "xxy @1");
-        Lineorders ten = Edge.empties(10);
+        Subject ten = Edge.empties(10);
         edge.allowedByLine(ten, "9,10n;9,10=");
         check.same("two digits", "9 |9|10 |10", Check.out(ten));
     }
@@ -303,7 +310,7 @@ public final class EdgeByLineTest {
         plays("a|b", "ax|y;az", "a|x|y|z|b|x|y|z @8");
         plays("a|b", "a", "a||b| @4");
         plays("a|b", "1a|", "a|||b @4");
-        Lineorders x = Edge.text("a|b", 1);
+        Subject x = Edge.text("a|b", 1);
         Check.run(x, "2w1;1,2h");
         edge.allowedByLine(x, "1u;1r1;1az;1s/a/q/", "q|a|b|b|z|b @6");
         edge.allowedByLine(x, "r2", "q|a|b|b|z|b @6");
@@ -371,7 +378,7 @@ public final class EdgeByLineTest {
         edge.sentence("5, j: whose number is that line's then");
         plays("a|b|c", "1j;2s/$/x/;1s/$/y/", "abx|c @2");
         plays("a|b|c", "1j;j;$s/$/x/", "abcx @1");
-        Lineorders x = Edge.text("a|b|c", 1);
+        Subject x = Edge.text("a|b|c", 1);
         edge.allowedByLine(x, "=;j;=;n");
         check.same("the out", "1|2|2 ab|3|3|3 c", Check.out(x));
         edge.sentence("0: a row is 0 to 30 characters, also by j");
@@ -384,7 +391,7 @@ public final class EdgeByLineTest {
     private void exchanging() {
         edge.sentence("5, e: refused by 5, if not just one row is held; that row and that of the work change places");
         refuses("a|b|c", "e", 5);
-        Lineorders x = Edge.text("a|b|c", 1);
+        Subject x = Edge.text("a|b|c", 1);
         Check.run(x, "1,2h");
         edge.refusedByLine(x, "e", 5);
         edge.refusedByLine(x, "3e", 5);
@@ -402,7 +409,7 @@ public final class EdgeByLineTest {
 
     private void files() {
         edge.sentence("5, w: each file that a w of the script names is made one without rows at the beginning");
-        Lineorders x = Edge.text("a|b|c", 1);
+        Subject x = Edge.text("a|b|c", 1);
         Check.run(x, "w0;w1;w2;w3");
         edge.allowedByLine(x, "9w0;b;w1;g/q/w2");
         check.same("file 0", 0, x.fileRows(0));
@@ -411,19 +418,19 @@ public final class EdgeByLineTest {
         check.same("file 3 is not named", 3, x.fileRows(3));
         edge.allowedByLine(x, "1r3;/b/w1;r1;s/*/x/;w1", "x|a|b|c|x|x|b|x|x|b|x @11");
         check.same("file 1", "x|b|x|x", Check.file(x, 1));
-        Lineorders y = new Lineorders();
+        Subject y = new Subject();
         Check.run(y, "aa;w1;d");
         edge.allowedByLine(y, "w1", " @0");
         check.same("in a text without lines", 0, y.fileRows(1));
         edge.sentence("5, w: the row comes behind those of the file; more than 40 rows are refused by 4");
-        Lineorders full = Edge.empties(40);
+        Subject full = Edge.empties(40);
         edge.allowedByLine(full, "w0");
         check.same("40 rows", 40, full.fileRows(0));
         edge.refusedByLine(full, "w0;40w0", 4);
         edge.allowedByLine(full, "40b;w0;1w0");
         check.same("39 and one more", 40, full.fileRows(0));
         edge.refusedByLine(full, "w1;w2;1w2", 4);
-        Lineorders few = Edge.empties(1);
+        Subject few = Edge.empties(1);
         edge.refusedByLine(few, ":A;w0;bA", 4);
     }
 
@@ -452,11 +459,12 @@ public final class EdgeByLineTest {
         plays("a|b|c", "9q;s/$/x/", "ax|bx|cx @3");
         plays("a|b|c", "2d;2q;s/$/x/", "ax|cx @2");
         plays("a|b|c", "j;q", "ab|c @2");
-        Lineorders x = Edge.text("a|b|c", 1);
+        Subject x = Edge.text("a|b|c", 1);
         Check.run(x, "3ka");
         edge.allowedByLine(x, "1ax;1q");
         check.same("ids", "0 3 1 2", Check.ids(x));
         check.same("marks", 4, x.mark(0));
+        edge.allowedByLine(x, "s/$/y/", "ay|xy|by|cy @4");
         edge.refusedByLine(Edge.empties(40), "1a;1q", 4);
         edge.allowedByLine(Edge.empties(39), "1a;1q");
         edge.refusedByLine(Edge.empties(40), "39i;39q", 4);
@@ -491,6 +499,8 @@ public final class EdgeByLineTest {
         refuses("a|b|c", "3bX", 6);
         refuses("a|b|c", "s/c/d/;TX", 6);
         refuses("a|b|c", "s/c/c/;TX", 6);
+        plays("a|b", ":A;s/$/x/;:A;s/x/y/", "ay|by @2");
+        come(2 * 4, "a|b", ":A;p;:A;p");
         edge.sentence("5, T asks since this work was taken");
         plays("a|b|a", "s/a/x/;T;s/$/y/", "x|by|x @3");
         plays("a|b|a", "s/a/x/;N;T;s/$/y/", "x|by|x @3");
@@ -517,6 +527,11 @@ public final class EdgeByLineTest {
         for (String orders : new String[] {"1+0p", "$-1p", "$+1p", "9-9p", "1+1,2-1p", "1,$-1p", ".,$+1p", "/a/,1+1p", "'a,9+9p"}) {
             plays("a|b", orders, "a|b @2");
         }
+        Subject both = Edge.text("a|b", 1);
+        edge.refusedByLine(both, ".+1,'a-1p", 8);
+        edge.allowedByLine(both, ".,'ap", "a|b @2");
+        edge.refusedByLine(both, "/a/+0p", 8);
+        edge.allowedByLine(both, "/a/p", "a|b @2");
         edge.sentence("5: one that is not come to is not refused");
         plays("a|b", "b;l", "a|b @2");
         plays("a|b", "q;m0", "a|b @2");
@@ -524,7 +539,7 @@ public final class EdgeByLineTest {
         plays("a|b", "9{l}", "a|b @2");
         plays("a|b", "g/q/.+1p", "a|b @2");
         plays("a|b", "N;N;l", "a|b @2");
-        edge.allowedByLine(new Lineorders(), "l;m0;.+1p", " @0");
+        edge.allowedByLine(new Subject(), "l;m0;.+1p", " @0");
         refuses("a|b", "u;l", 5);
         refuses("a|b", "l;u", 8);
         refuses("a|b", "2bX;l", 8);
@@ -540,7 +555,7 @@ public final class EdgeByLineTest {
         plays("abc|b", "v1;1d", "bc|b @2");
         come(1 + 2 + 2, "a|b|c", "1d;2,3p");
         come(2 + 3 + 3, "a|b|c", "g/a/d;p;p");
-        Lineorders x = Edge.text("a|b|c", 1);
+        Subject x = Edge.text("a|b|c", 1);
         Check.run(x, "2ka");
         edge.allowedByLine(x, "2kb;2kc;2d");
         check.same("its marks stand at none", "-1 -1 -1 -1 -1", Check.marks(x));
@@ -567,11 +582,11 @@ public final class EdgeByLineTest {
         edge.refusedByLine(Edge.empties(40), "40i;40a;40d", 4);
         edge.refusedByLine(Edge.empties(40), "40i|;40d", 4);
         edge.allowedByLine(Edge.empties(40), "39j;40a");
-        Lineorders parted = Edge.empties(40);
+        Subject parted = Edge.empties(40);
         Check.run(parted, "40cab");
         edge.refusedByLine(parted, "v1", 4);
         edge.allowedByLine(parted, "1d;v1");
-        Lineorders x = Edge.empties(39);
+        Subject x = Edge.empties(39);
         Check.run(x, "1h;1,2w0");
         edge.allowedByLine(x, "39u");
         check.same("40 lines by u", 40, x.lines());
@@ -580,6 +595,20 @@ public final class EdgeByLineTest {
         edge.refusedByLine(x, "39r0", 4);
         edge.allowedByLine(x, "1d;39r0");
         check.same("40 lines by r", 40, x.lines());
+        Subject full = Edge.empties(40);
+        edge.allowedByLine(full, "20cx");
+        check.same("the id of the last of 40 lines", 39, full.id(40));
+        check.same("the id of a new one among 40", 40, full.id(20));
+        edge.allowedByLine(full, "q");
+        check.same("the id of the last of 40 lines", 39, full.id(40));
+        Subject many = Edge.empties(20);
+        Check.run(many, "%h;2,$d");
+        edge.refusedByLine(many, "u;u;ax;d", 4);
+        edge.refusedByLine(many, "u;u", 4);
+        edge.refusedByLine(many, "u;u;u;u", 4);
+        edge.refusedByLine(many, "u;u;u;u;bX", 6);
+        edge.allowedByLine(many, "u;u;d");
+        check.same("40 that were due", 40, many.lines());
         edge.sentence("5: rows that are due count only as they are put");
         edge.refusedByLine(Edge.empties(40), "1a;1bX", 6);
         edge.refusedByLine(Edge.empties(40), "1i;40bX", 6);
@@ -597,7 +626,7 @@ public final class EdgeByLineTest {
         refuses(Edge.ROW30.substring(1), "n", 4);
         plays(Edge.ROW30.substring(2), "n", Edge.ROW30.substring(2) + " @1");
         plays("a|" + Edge.ROW30, "1>9;1<9;2<9", "a|" + Edge.ROW30 + " @2");
-        Lineorders x = Edge.empties(40);
+        Subject x = Edge.empties(40);
         edge.allowedByLine(x, "H");
         check.same("40 held", 40, x.held());
         edge.refusedByLine(x, "1H", 4);
@@ -629,9 +658,9 @@ public final class EdgeByLineTest {
         edge.sentence("always (4): %s, %z, %> and %< give the same text over the whole and line by line, if neither is refused");
         for (int seed = 0; seed < 40; seed++) {
             for (String orders : new String[] {"%s/a/bb/g;%>3;%<2;%z/ab/ba/", "%s/(.)\\1/x/2;%s/()/ /", "%s/*b/&c/;%<9;%z/ c/c /", "%s/$/e/9;%>0"}) {
-                Lineorders x = new Lineorders();
+                Subject x = new Subject();
                 x.sample(seed * 997, 12);
-                Lineorders y = new Lineorders();
+                Subject y = new Subject();
                 y.sample(seed * 997, 12);
                 edge.allowed(x, orders);
                 edge.allowedByLine(y, orders, Check.text(x) + " @12");

@@ -30,7 +30,7 @@ public final class EdgeRestTest {
 
     private void newObject() {
         edge.sentence("promise 1: nothing is there");
-        Lineorders x = new Lineorders();
+        Subject x = new Subject();
         check.same("all", "text 0  ids  present 0 marks -1 -1 -1 -1 -1 held 0  out 0  file 0  file 0  file 0  file 0 "
             + " script -1  script -1  script -1  script -1  deeds 0 sound true", Edge.all(x));
         check.same("the tape", 0, x.wipe());
@@ -50,7 +50,7 @@ public final class EdgeRestTest {
 
     private void runs() {
         edge.sentence("promise 6: how many were come to and not refused, those in blocks and behind g and G not counted");
-        Lineorders x = Edge.text("a|b|c", 1);
+        Subject x = Edge.text("a|b|c", 1);
         check.same("one", 1, Check.run(x, "p"));
         check.same("one that is refused", 0, Check.run(x, "9p"));
         check.same("none behind it", 1, Check.run(x, "p;9p;p"));
@@ -71,7 +71,7 @@ public final class EdgeRestTest {
 
     private void keptScripts() {
         edge.sentence("promise 7: keeps the tape as a script, in place of what was there");
-        Lineorders x = new Lineorders();
+        Subject x = new Subject();
         check.same("keep(0)", 1, Check.keep(x, 0, "p"));
         check.same("keep(3)", 60, Check.keep(x, 3, "a" + "|".repeat(59)));
         check.same("keep(0) again", 3, Check.keep(x, 0, "=;q"));
@@ -104,7 +104,7 @@ public final class EdgeRestTest {
 
     private void playedScripts() {
         edge.sentence("promises 8 and 9: throw if none was kept there");
-        Lineorders x = Edge.text("a|b", 1);
+        Subject x = Edge.text("a|b", 1);
         for (int script = 0; script < 4; script++) {
             int n = script;
             edge.throwing(x, "play(" + n + ")", Edge.ISE, () -> x.play(n));
@@ -120,12 +120,30 @@ public final class EdgeRestTest {
         edge.throwing(x, "stream(3)", Edge.ISE, () -> x.stream(3));
         Check.keep(x, 0, "l");
         check.same("NONE if one was refused", Lineorders.NONE, x.stream(0));
+        edge.sentence("promises 8 and 9: the orders of the script, whatever is on the tape");
+        Check.keep(x, 1, "1cx");
+        Check.type(x, "%d");
+        check.same("the tape has no fault", -1, x.fault());
+        check.same("play(1)", 1, x.play(1));
+        check.same("the text", "x|bx @1", Edge.state(x));
+        Check.keep(x, 3, "2cy");
+        Check.type(x, "(");
+        check.same("the tape has a fault", 0, x.fault());
+        check.same("stream(1)", 2, x.stream(1));
+        check.same("stream(3)", 2, x.stream(3));
+        check.same("the text", "x|y @2", Edge.state(x));
+        x.wipe();
+        check.same("with an empty tape", 2, x.stream(1));
+        check.same("play(3) with an empty tape", 1, x.play(3));
+        Check.keep(x, 0, "l");
+        edge.sentence("promises 8 and 9: throw if none was kept there, or NONE if one was refused");
+        check.same("stream(0)", Lineorders.NONE, x.stream(0));
         check.same("over the whole it is not", 1, x.play(0));
     }
 
     private void reasons() {
         edge.sentence("promise 10: the reason of the latest run(), play() or stream() that did not throw; 0 ahead of all");
-        Lineorders x = new Lineorders();
+        Subject x = new Subject();
         check.same("ahead of all", 0, x.reason());
         Check.type(x, "");
         check.throwing("run()", Edge.ISE, x::run);
@@ -157,7 +175,7 @@ public final class EdgeRestTest {
         String[] deeds = {"ax", "ix", "cx", "d", "j", "l", "p", "=", "n", "h", "H", "N", "v0", "v9", ">0", "<0", "o0", "O0", "m1", "m.", "t0",
             "ka", "r0", "w0", "s/x/y/", "z/x/y/", "g/x/d", "G/*/d", "{p}", "%{p;p;p}", "g/./{>0;<0}", "3N", "2,3N", "%l", "u", "e"};
         for (String orders : deeds) {
-            Lineorders x = Edge.text("a|b|c", 1);
+            Subject x = Edge.text("a|b|c", 1);
             if (orders.equals("u") || orders.equals("e")) {
                 Check.run(x, "h");
             }
@@ -169,18 +187,18 @@ public final class EdgeRestTest {
             check.same("as it was ahead of " + orders, was, Edge.state(x) + Check.ids(x) + Check.marks(x));
         }
         for (String orders : new String[] {":A", "b", "T", "q", "2q", "1q", ":A;bB;:B", "TX", "9-8b", "2T", "q;p"}) {
-            Lineorders x = Edge.text("a|b|c", 1);
+            Subject x = Edge.text("a|b|c", 1);
             int ahead = x.deeds();
             edge.allowed(x, orders);
             check.same(orders + " is none", ahead, x.deeds());
         }
         edge.sentence("6: one that is refused is none");
         for (String orders : new String[] {"9p", "u", "bX", "3j", "0d", "%{d;p;9p}", "2,1p"}) {
-            Lineorders x = Edge.text("a|b|c", 1);
+            Subject x = Edge.text("a|b|c", 1);
             edge.refused(x, orders, orders.equals("u") ? 5 : orders.equals("bX") ? 6 : 1);
         }
         edge.sentence("6: so is each script that was played line by line, and each sample()");
-        Lineorders x = Edge.text("a|b|c", 1);
+        Subject x = Edge.text("a|b|c", 1);
         int ahead = x.deeds();
         edge.allowedByLine(x, "p;=;s/a/b/;q");
         check.same("one", ahead + 1, x.deeds());
@@ -192,14 +210,14 @@ public final class EdgeRestTest {
 
     private void fortyDeeds() {
         edge.sentence("6: at most 40 deeds are kept; a 41st one drops the oldest");
-        Lineorders x = new Lineorders();
+        Subject x = new Subject();
         Check.run(x, "a0");
         Check.run(x, "s/$/1/");
         for (int deed = 3; deed <= 40; deed++) {
             Check.run(x, "s/*/" + deed + "/");
             check.same("deeds", deed, x.deeds());
         }
-        Lineorders y = new Lineorders();
+        Subject y = new Subject();
         Check.run(y, "a0");
         for (int deed = 2; deed <= 40; deed++) {
             Check.run(y, "s/*/" + deed + "/");
@@ -216,7 +234,7 @@ public final class EdgeRestTest {
         edge.throwing(y, "undo() of none", Edge.ISE, y::undo);
         edge.throwing(y, "undoRun() of none", Edge.ISE, y::undoRun);
         edge.sentence("6: a script and a sample drop the oldest, too");
-        Lineorders z = new Lineorders();
+        Subject z = new Subject();
         Check.run(z, "a0");
         Check.run(z, ":A;=;bA");
         Check.run(z, "=;=;=;=;=;=;=;=;=");
@@ -234,7 +252,7 @@ public final class EdgeRestTest {
 
     private void undoing() {
         edge.sentence("6: to undo is to let the text, with its lines and ids, the marks and the present line be as they were");
-        Lineorders x = Edge.text("a|b|c", 2);
+        Subject x = Edge.text("a|b|c", 2);
         Check.run(x, "1ka;3kb");
         String was = Edge.state(x) + " " + Check.ids(x) + " " + Check.marks(x);
         String[] orders = {"%d", "1,2d", "%cx", "1j", "%O0", "1m$", "2t0", "%s/*/x/", "v0", "2ka", "1ax|y", "1iz", "N", "$>9"};
@@ -260,7 +278,7 @@ public final class EdgeRestTest {
         check.same("what e holds stays", "c", Check.held(x));
         check.same("the text is as it was", was, Edge.state(x) + " " + Check.ids(x) + " " + Check.marks(x));
         edge.sentence("6: a deed that was undone is none any more");
-        Lineorders y = Edge.text("a|b|c", 1);
+        Subject y = Edge.text("a|b|c", 1);
         int deeds = y.deeds();
         Check.run(y, "d;d");
         y.undo();
@@ -279,7 +297,7 @@ public final class EdgeRestTest {
 
     private void undoingRuns() {
         edge.sentence("promise 14: the latest deed, and those kept next ahead of it that the same call made");
-        Lineorders x = new Lineorders();
+        Subject x = new Subject();
         Check.run(x, "aa;ab;ac");
         x.run();
         check.same("the same tape twice: two calls", 3, x.undoRun());
@@ -304,6 +322,26 @@ public final class EdgeRestTest {
         Check.run(x, ":A");
         check.same("three of a run", 3, x.undoRun());
         check.same("none is left", 0, x.deeds());
+        for (int call = 0; call < 4; call++) {
+            Subject y = Edge.text("a|b|c", 1);
+            Check.keep(y, 0, "s/$/x/");
+            Check.keep(y, 1, "9d");
+            Check.keep(y, 2, "l");
+            y.play(0);
+            int none = call == 0 ? y.play(1) : call == 1 ? y.stream(2) : call == 2 ? Check.run(y, "9d") : y.wipe();
+            y.play(0);
+            check.same("one of the latest call, behind " + none, 1, y.undoRun());
+            check.same("one of the call ahead", 1, y.undoRun());
+            check.same("the text", "a|b|c @1", Edge.state(y));
+            y.sample(1, 1);
+            y.play(1);
+            y.sample(1, 1);
+            y.play(1);
+            y.stream(0);
+            check.same("a script", 1, y.undoRun());
+            check.same("a sample", 1, y.undoRun());
+            check.same("another one", 1, y.undoRun());
+        }
         edge.sentence("promise 14: those that were dropped are not undone");
         Check.run(x, "a");
         Check.run(x, ":A;>0;bA");
@@ -316,7 +354,7 @@ public final class EdgeRestTest {
 
     private void linesByNumber() {
         edge.sentence("promises 16 to 19: no such line, or no such place");
-        Lineorders x = Check.with("ab", "", Edge.ROW30);
+        Subject x = Check.with("ab", "", Edge.ROW30);
         check.same("lines()", 3, x.lines());
         check.same("length(1)", 2, x.length(1));
         check.same("length(2)", 0, x.length(2));
@@ -349,7 +387,7 @@ public final class EdgeRestTest {
 
     private void linesById() {
         edge.sentence("promise 20: the number of the line with an id; NONE if it is not there");
-        Lineorders x = Check.with("a", "b", "c");
+        Subject x = Check.with("a", "b", "c");
         check.same("lineOf(0)", 1, x.lineOf(0));
         check.same("lineOf(2)", 3, x.lineOf(2));
         for (int id : new int[] {Integer.MIN_VALUE, -1, 3, 40, Integer.MAX_VALUE}) {
@@ -367,7 +405,7 @@ public final class EdgeRestTest {
 
     private void sampling() {
         edge.sentence("promise 23: seed 0 to 65535, many 1 to 20");
-        Lineorders x = new Lineorders();
+        Subject x = new Subject();
         for (int seed : new int[] {Integer.MIN_VALUE, -1, 65536, 65537, Integer.MAX_VALUE}) {
             edge.throwing(x, "sample(" + seed + ", 1)", Edge.IAE, () -> x.sample(seed, 1));
         }
@@ -389,7 +427,7 @@ public final class EdgeRestTest {
     private void lots() {
         edge.sentence("6: a lot of 9 characters, each a, b, c, d, e or a blank by a lot of 6");
         for (int seed : new int[] {0, 1, 7, 15, 16, 255, 256, 4095, 32767, 32768, 40000, 65534, 65535}) {
-            Lineorders x = new Lineorders();
+            Subject x = new Subject();
             Check.run(x, "aq");
             Check.run(x, "1ip");
             check.same("sample", 22, x.sample(seed, 20));
@@ -407,14 +445,14 @@ public final class EdgeRestTest {
             check.same("the text by " + seed, due.toString(), Check.text(x));
         }
         // By hand: 0 becomes 13849, that is 865 sixteenths, 1 in the lot of 9; then 48742, that is 3046, 4 in that of 6.
-        Lineorders one = new Lineorders();
+        Subject one = new Subject();
         one.sample(0, 1);
         check.same("one character", "e @1", Edge.state(one));
     }
 
     private void heldByNumber() {
         edge.sentence("promises 24 to 26: no such row is held, or it has no such place");
-        Lineorders x = Check.with("ab", "", Edge.ROW30);
+        Subject x = Check.with("ab", "", Edge.ROW30);
         edge.throwing(x, "heldLength(1) of none", Edge.IOOBE, () -> x.heldLength(1));
         edge.throwing(x, "heldAt(1, 0) of none", Edge.IOOBE, () -> x.heldAt(1, 0));
         Check.run(x, "%h");
@@ -437,7 +475,7 @@ public final class EdgeRestTest {
 
     private void outByNumber() {
         edge.sentence("promises 27 to 30: no such row of the out, or it has no such place");
-        Lineorders x = Check.with("ab", "", Edge.ROW30);
+        Subject x = Check.with("ab", "", Edge.ROW30);
         edge.throwing(x, "outLength(1) of none", Edge.IOOBE, () -> x.outLength(1));
         edge.throwing(x, "outAt(1, 0) of none", Edge.IOOBE, () -> x.outAt(1, 0));
         check.same("clearOut() of none", 0, x.clearOut());
@@ -459,7 +497,7 @@ public final class EdgeRestTest {
         check.same("clearOut() again", 0, x.clearOut());
         check.same("it is no deed", deeds, x.deeds());
         edge.throwing(x, "outLength(1) then", Edge.IOOBE, () -> x.outLength(1));
-        Lineorders full = Edge.empties(40);
+        Subject full = Edge.empties(40);
         Check.run(full, "1cab;%p;%p;1,19p;1p");
         check.same("outLength(100)", 2, full.outLength(100));
         check.same("outAt(100, 1)", 'b', full.outAt(100, 1));
@@ -468,7 +506,7 @@ public final class EdgeRestTest {
 
     private void filesByNumber() {
         edge.sentence("promises 31 to 33: no such file or row, or it has no such place");
-        Lineorders x = Check.with("ab", "", Edge.ROW30);
+        Subject x = Check.with("ab", "", Edge.ROW30);
         Check.run(x, "w0;2,3w3");
         check.same("fileRows(0)", 3, x.fileRows(0));
         check.same("fileRows(1)", 0, x.fileRows(1));
@@ -499,7 +537,7 @@ public final class EdgeRestTest {
 
     private void finding() {
         edge.sentence("always (5): find() tells the next line that holds a pattern, going round once");
-        Lineorders x = Edge.text("a|b|c|b", 3);
+        Subject x = Edge.text("a|b|c|b", 3);
         String[] patterns = {"a", "b", "c", "q", "^$", "*"};
         int[] next = {1, 4, 3, -1, -1, 4};
         int[] nearest = {1, 2, 3, -1, -1, 2};
@@ -509,7 +547,7 @@ public final class EdgeRestTest {
             check.same("find(true) of " + patterns[i], nearest[i], x.find(true));
             check.same("the present line stays", 3, x.present());
         }
-        Lineorders empty = new Lineorders();
+        Subject empty = new Subject();
         Check.type(empty, "*");
         check.same("without lines", -1, empty.find(false));
         check.same("without lines, back", -1, empty.find(true));
@@ -535,7 +573,7 @@ public final class EdgeRestTest {
 
     /** The rows with which the lines are in a pair, and how many of both are in none. */
     private static String pairs(String text, String rows) {
-        Lineorders x = rows.equals("-") ? new Lineorders() : Edge.text(rows, 1);
+        Subject x = rows.equals("-") ? new Subject() : Edge.text(rows, 1);
         Check.run(x, "w2;%d");
         if (!text.equals("-")) {
             for (String line : text.split("\\|", -1)) {
@@ -564,7 +602,7 @@ public final class EdgeRestTest {
         check.same("no lines", "/ 2", pairs("-", "a|b"));
         check.same("neither", "/ 0", pairs("-", "-"));
         check.same("nothing alike", "-1 -1 / 5", pairs("a|b", "c|d|e"));
-        Lineorders full = Edge.empties(40);
+        Subject full = Edge.empties(40);
         Check.run(full, "w0");
         check.same("40 and 40", 0, full.differ(0));
         check.same("the last one", 40, full.pairOf(0, 40));
@@ -572,6 +610,17 @@ public final class EdgeRestTest {
         check.same("40 and 40 unlike ones", 80, full.differ(0));
         check.same("none", -1, full.pairOf(0, 40));
         check.same("with a file without rows", 40, full.differ(1));
+        Subject last = Edge.empties(40);
+        Check.run(last, "40ce;w0;1,39s/$/x/");
+        check.same("the last of 40 is the same", 78, last.differ(0));
+        check.same("its row", 40, last.pairOf(0, 40));
+        check.same("no other one", -1, last.pairOf(0, 39));
+        Check.run(last, "$m0");
+        check.same("the first of 40 is the last", 78, last.differ(0));
+        check.same("its row", 40, last.pairOf(0, 1));
+        Check.run(last, "40w1");
+        check.same("40 lines and one row", 39, last.differ(1));
+        check.same("the first one like it", 1, last.pairOf(1, 2));
     }
 
     private void ties() {
@@ -583,12 +632,19 @@ public final class EdgeRestTest {
         check.same("twice alike", "-1 1 2 -1 / 2", pairs("b|a|b|a", "a|b"));
         check.same("the other way round", "2 3 / 2", pairs("a|b", "b|a|b|a"));
         check.same("a long one", "-1 1 3 -1 4 / 3", pairs("x|a|b|y|c", "a|q|b|c"));
+        check.same("crossed", "-1 -1 1 2 / 4", pairs("c|d|a|b", "a|b|c|d"));
+        check.same("crossed, with one more of the lines", "3 4 5 -1 -1 / 4", pairs("c|d|e|a|b", "a|b|c|d|e"));
+        check.same("crossed, with one more of the rows", "-1 -1 1 2 3 / 4", pairs("d|e|a|b|c", "a|b|c|d|e"));
+        check.same("alike ones in turn", "1 2 3 -1 / 1", pairs("a|b|a|b", "a|b|a"));
+        check.same("alike ones in turn, a row more ahead", "2 3 4 / 1", pairs("a|b|a", "b|a|b|a"));
+        check.same("a row twice", "1 3 / 1", pairs("a|b", "a|a|b"));
+        check.same("a line twice", "1 -1 2 / 1", pairs("a|a|b", "a|b"));
         check.same("the line is passed as soon as it may", "-1 -1 1 / 3", pairs("b|b|a", "a|c"));
     }
 
     private void soundness() {
         edge.sentence("promise 39: always true");
-        Lineorders x = Edge.empties(40);
+        Subject x = Edge.empties(40);
         Check.run(x, "1ka;40ke;%h;w0;%p;%p;1,20p");
         check.holds("as much as there may be", x.isSound());
         for (String orders : new String[] {"a", "%d", "H", "p", "1,2d;1t0;u", "%{d;a}", "9{9p}"}) {

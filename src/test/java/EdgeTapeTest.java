@@ -27,6 +27,7 @@ public final class EdgeTapeTest {
         test.insideOfBlocks();
         test.lengthsOfBlocks();
         test.whateverLength();
+        test.onTapeAfterTheOther();
         test.prefixes();
         System.exit(test.check.close());
     }
@@ -56,7 +57,7 @@ public final class EdgeTapeTest {
 
     private void signsOfTheTape() {
         edge.sentence("0: the tape has at most 60 signs (codes 32 to 126), empty at first");
-        Lineorders x = new Lineorders();
+        Subject x = new Subject();
         check.same("wipe of an empty tape", 0, x.wipe());
         check.same("fault of an empty tape", 0, x.fault());
         check.same("patternFault of an empty tape", 0, x.patternFault());
@@ -81,7 +82,7 @@ public final class EdgeTapeTest {
             check.same("each sign of the span", 1, x.type(sign));
             x.wipe();
         }
-        Lineorders full = new Lineorders();
+        Subject full = new Subject();
         Check.type(full, "a" + "|".repeat(59));
         check.same("60 signs have no fault", -1, full.fault());
         edge.throwing(full, "sign 61", Edge.ISE, () -> full.type('x'));
@@ -90,7 +91,7 @@ public final class EdgeTapeTest {
 
     private void theTapeStays() {
         edge.sentence("0: the tape stays until it is wiped, whatever is done with it");
-        Lineorders x = new Lineorders();
+        Subject x = new Subject();
         Check.type(x, "ab;p");
         x.fault();
         x.patternFault();
@@ -125,7 +126,7 @@ public final class EdgeTapeTest {
 
     private void severalExceptions() {
         edge.sentence("0: if several exceptions apply, the one that the throws clauses name first is thrown");
-        Lineorders x = new Lineorders();
+        Subject x = new Subject();
         for (int i = 0; i < 60; i++) {
             x.type('+');
         }
@@ -205,7 +206,7 @@ public final class EdgeTapeTest {
         for (int i = 0; i < characters.length(); i++) {
             String one = characters.substring(i, i + 1);
             String others = characters.substring(0, i) + characters.substring(i + 1);
-            Lineorders x = Check.with(one, others.substring(0, 18), others.substring(18));
+            Subject x = Check.with(one, others.substring(0, 18), others.substring(18));
             Check.type(x, one);
             check.same(one + " in itself", 0, x.findStart(1));
             check.same(one + " in others", -1, x.findStart(2));
@@ -283,7 +284,7 @@ public final class EdgeTapeTest {
         edge.finds("a*a", "aaab", 0, 3);
         edge.finds("a*b*c", "abcbc", 0, 5);
         edge.finds("(*)b\\1", "abab", 0, 3);
-        Lineorders x = Check.with("aabaab");
+        Subject x = Check.with("aabaab");
         edge.allowed(x, "s/(*)a(*)/1\\1 2\\2 /", "1aaba 2b  @1");
         edge.allowed(x, "caabaab", "aabaab @1");
         edge.allowed(x, "s/(*)aa(*)b/1\\1 2\\2 /", "1aab 2  @1");
@@ -326,6 +327,7 @@ public final class EdgeTapeTest {
         edge.sound("0a", "00a", "9p", "99p", "1,99p", "99,1p", "m99", "t0", "1+99p", "1-99p", "1+0-0+9-99p", "$-99,.+99p");
         edge.faulty("10!0p", "99!9p", "1,10!0p", "m10!0", "t99!9", "1+10!0p", "$-99!9p", "1+1-10!0p");
         edge.faulty("1+!", "1-!", "1+!+1p", "1+!p", ".-!.p", "$+!$p", "m1+!", "t$-!;");
+        edge.faulty("v!/", "v1!/", "o1!/", "m1!/", "1!/a/p", "1,2!/", "1+1!/", "v1!:", "1!:A");
         edge.sentence("3: a spot has ahead of + and - a number, a point, $, a mark or a pattern");
         edge.faulty("!+1p", "!-1p", "1,!+1p", "m!+1", "1+1!.p", ".!$p", "$!1p", "'a!'bp", "/a/!/b/p", "1!'ap", "p!1");
         edge.sentence("3: where is %, or an address, or two");
@@ -338,6 +340,7 @@ public final class EdgeTapeTest {
         for (char mark = 'a'; mark <= 'e'; mark++) {
             edge.sound("'" + mark + "p", "k" + mark, "m'" + mark, "1,'" + mark + "p");
         }
+        edge.faulty("m'!", "t'!", "m/a!", "t?a!", "m/!", "1,'!", "/a!", "1,?a!");
         edge.faulty("'!fp", "'!`p", "'!Ap", "'!0p", "'! p", "'!", "k!f", "k!`", "k!A", "k!1", "k!", "ka!b", "m'!f", "k!;p");
         edge.sentence("3: a file is 0 to 3");
         for (char file = '0'; file <= '3'; file++) {
@@ -357,10 +360,14 @@ public final class EdgeTapeTest {
                 act + Edge.ROW30 + "!/");
             edge.sound(act + Edge.ROW30 + "|" + Edge.ROW30.substring(3), act + Edge.ROW30 + ";p");
         }
-        Lineorders x = new Lineorders();
+        Subject x = new Subject();
         edge.allowed(x, "a p  |;=", " p  | @2");
         edge.allowed(x, "%c" + Edge.ROW30, Edge.ROW30 + " @1");
         edge.allowed(x, "ip;d;{a;d}");
+        Subject long60 = new Subject();
+        edge.allowed(long60, "a" + Edge.ROW30.substring(2) + "|" + Edge.ROW30);
+        check.same("60 signs", 60, long60.wipe());
+        check.same("the last row of a tape of 60 signs", Edge.ROW30.substring(2) + "|" + Edge.ROW30, Check.text(long60));
         edge.sentence("3: those of z and of a put may have more than 30");
         edge.sound("z/" + Edge.ROW30.substring(2) + "/" + Edge.ROW30.substring(2) + "/");
         edge.sound("s/a/" + Edge.ROW30 + "0/", "s/a/" + "b".repeat(55) + "/", "s/a/" + "b".repeat(31) + "&/g");
@@ -377,6 +384,7 @@ public final class EdgeTapeTest {
         edge.sentence("3: the digit in a put is 1 or 2, and tells a group of its pattern");
         edge.sound("s/(a)/\\1/", "s/(a)(b)/\\1\\2/", "s/(a)(b)/x\\2&\\1y/g", "s/()/\\1\\1/9");
         edge.faulty("s/a/!\\1/", "s/a/x!\\1/", "s/(a)/\\!2/", "s/(a)/\\!0/", "s/(a)(b)/\\!3/", "s/(a)(b)/\\!0/", "s/(a)/\\!/");
+        edge.faulty("s/(a)/\\!", "s/(a)(b)/\\1\\!", "g!", "G!", "g!d", "g/!", "G/a!", "g/a/!", "g/a!D", "g/(!", "G/a!;");
         edge.faulty("s/(a)/\\!\\/", "s/(a)/\\!&/", "s/(a)/\\1\\!2/", "s/(a)/b/;s/c/!\\1/", "/(a)/s/c/!\\1/", "s/(a)(b)/c/;s/(c)/\\!2/");
         edge.faulty("s/a!", "s/a/!", "s/a/b!", "s!", "s!;", "s/!", "s/(a!/b/", "s/a/!;p", "s/a/!|/", "s/a/!./");
     }
@@ -436,6 +444,22 @@ public final class EdgeTapeTest {
         edge.sound("a" + "|".repeat(59), "s/[" + "x".repeat(54) + "]//", ("g/a/{" + "p;".repeat(30)).substring(0, 58) + "}");
         edge.sentence("3: likewise a tape is taken as a pattern");
         edge.unfit("[!", "[^!", "[a!", "(!", "(a!", "(a)\\!", "!", "[ab!A]", "(ab!;", "a!;");
+    }
+
+    private void onTapeAfterTheOther() {
+        edge.sentence("promises 3 to 5: what stood on a tape ahead of wipe() counts no more");
+        String[] tapes = {"1,2p", "1", "p;p", "p", "p;", "{p}", "{p", "'f", ".p", "m'", "m.", "/[a", "$p", "s/a/b/g", "s/a/b/", "s/a/b", "s/a",
+            "g/a/{p}", "g/a/p", "a|b|c", "a|b", "a", "k", "kb", "v12", "v1", "v", "1+12p", "1+1", "1+", "TA", "T", "/(a)\\1/p", "/(a)\\", "/(a",
+            ":A", ":", "z/ab/cd/", "z/ab/c", "z/ab/", "z/a"};
+        int[] due = {-1, 1, -1, -1, 2, -1, 2, 1, -1, 2, -1, 3, -1, -1, -1, 5, 3,
+            -1, -1, -1, -1, -1, 1, -1, -1, -1, 1, -1, 3, 2, -1, -1, -1, 5, 3,
+            -1, 1, -1, 6, 5, 3};
+        check.same("as many tapes as faults", due.length, tapes.length);
+        Subject x = new Subject();
+        for (int i = 0; i < tapes.length; i++) {
+            Check.type(x, tapes[i]);
+            check.same("fault of " + tapes[i] + " behind other tapes", due[i], x.fault());
+        }
     }
 
     private void prefixes() {

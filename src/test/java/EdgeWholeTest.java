@@ -49,16 +49,16 @@ public final class EdgeWholeTest {
 
     private void fortyLines() {
         edge.sentence("1: the text has 0 to 40 lines");
-        check.same("none at first", 0, new Lineorders().lines());
+        check.same("none at first", 0, new Subject().lines());
         for (String orders : new String[] {"a", "0a", "1i", "$i", "1c|", "2,3c||", "$c|", "1t0", "$t$", "5t4",
             "1{a}", "1g/^$/i", "2G/a/t."}) {
-            Lineorders x = Edge.empties(39);
+            Subject x = Edge.empties(39);
             edge.allowed(x, orders);
             check.same("40 lines by " + orders, 40, x.lines());
             edge.refused(Edge.empties(40), orders, 4);
         }
         for (String orders : new String[] {"1c", "%c", "1,2c|", "1{d;a}", "%m0", "%o0", "1j;a"}) {
-            Lineorders x = Edge.empties(40);
+            Subject x = Edge.empties(40);
             edge.allowed(x, orders);
         }
         edge.allowed(Edge.empties(20), "%t$");
@@ -68,13 +68,13 @@ public final class EdgeWholeTest {
         edge.refused(Edge.empties(39), "a|", 4);
         edge.refused(Edge.empties(38), "1c|||", 4);
         edge.allowed(Edge.empties(38), "1c||");
-        Lineorders parted = Edge.empties(39);
+        Subject parted = Edge.empties(39);
         Check.run(parted, "3cabc");
         edge.allowed(parted, "%v2");
         check.same("40 lines by v", 40, parted.lines());
         edge.refused(parted, "%v1", 4);
         edge.allowed(parted, "%v9");
-        Lineorders two = Edge.empties(39);
+        Subject two = Edge.empties(39);
         Check.run(two, "3,4cabc|de");
         edge.refused(two, "%v1", 4);
         edge.allowed(two, "4v1");
@@ -82,7 +82,7 @@ public final class EdgeWholeTest {
 
     private void fortyLinesOfHeldAndFiles() {
         edge.sentence("1: the text has 0 to 40 lines, also by u, e and r");
-        Lineorders x = Edge.empties(38);
+        Subject x = Edge.empties(38);
         Check.run(x, "1,2h;1,2w0");
         edge.allowed(x, "$r0");
         check.same("40 lines by r", 40, x.lines());
@@ -107,7 +107,7 @@ public final class EdgeWholeTest {
 
     private void ids() {
         edge.sentence("1: ids are given from 0 on, in the order told; an id is never given again");
-        Lineorders x = new Lineorders();
+        Subject x = new Subject();
         edge.allowed(x, "aa|b|c");
         check.same("ids of a", "0 1 2", Check.ids(x));
         edge.allowed(x, "1id|e");
@@ -126,25 +126,25 @@ public final class EdgeWholeTest {
         String[] orders = {"{a;9p}", "%{i;/q/p}", "g/b/{a;'ap}", "1,3{a;9m0}", "%{c;9u}", "1{t0;9p}", "%{v1;v0;u}"};
         int[] why = {1, 2, 3, 1, 1, 1, 5};
         for (int i = 0; i < orders.length; i++) {
-            Lineorders y = Check.with("abc", "", "bcd");
+            Subject y = Check.with("abc", "", "bcd");
             edge.refused(y, orders[i], why[i]);
             edge.nextId(y, 3);
         }
-        Lineorders full = Edge.empties(39);
+        Subject full = Edge.empties(39);
         Check.run(full, "1,2cabc|abc");
         edge.refused(full, "%v1", 4);
         edge.nextId(full, 41);
-        Lineorders z = Check.with("a", "b");
+        Subject z = Check.with("a", "b");
         edge.refusedByLine(z, "ax;iy;2u", 5);
         edge.nextId(z, 2);
-        Lineorders w = Check.with("a");
+        Subject w = Check.with("a");
         Check.run(w, "ab;9p;ac");
         check.same("those ahead of it have given theirs", "0 1", Check.ids(w));
     }
 
     private void sameLines() {
         edge.sentence("1: to change the row of a line leaves it the same line, with its id");
-        Lineorders x = Check.with("ab", "b", "c");
+        Subject x = Check.with("ab", "b", "c");
         Check.run(x, "2kb");
         edge.allowed(x, "%s/b/x/;%z/x/y/;%>3;%<2;%s/*/z/");
         check.same("ids", "0 1 2", Check.ids(x));
@@ -172,7 +172,7 @@ public final class EdgeWholeTest {
 
     private void presentLines() {
         edge.sentence("1: the present line is from 1 to how many lines there are; 0 if there are none");
-        Lineorders x = new Lineorders();
+        Subject x = new Subject();
         check.same("at first", 0, x.present());
         edge.allowed(x, "aa", "a @1");
         edge.allowed(x, "d", " @0");
@@ -190,7 +190,7 @@ public final class EdgeWholeTest {
 
     private void marks() {
         edge.sentence("1: each mark stands at a line that is there, or at none, as all do at first");
-        Lineorders x = new Lineorders();
+        Subject x = new Subject();
         check.same("at first", "-1 -1 -1 -1 -1", Check.marks(x));
         edge.throwing(x, "mark(-1)", Edge.IOOBE, () -> x.mark(-1));
         edge.throwing(x, "mark(5)", Edge.IOOBE, () -> x.mark(5));
@@ -221,7 +221,7 @@ public final class EdgeWholeTest {
 
     private void heldRows() {
         edge.sentence("1: held are 0 to 40 rows");
-        Lineorders x = Edge.empties(40);
+        Subject x = Edge.empties(40);
         edge.allowed(x, "%h");
         check.same("40 by h", 40, x.held());
         edge.refused(x, "1H", 4);
@@ -232,7 +232,7 @@ public final class EdgeWholeTest {
         edge.refused(x, "1,3H", 4);
         edge.allowed(x, "1,2H");
         edge.refused(x, "1g/^$/H", 4);
-        Lineorders y = Edge.empties(40);
+        Subject y = Edge.empties(40);
         edge.allowed(y, "%H");
         check.same("40 by H alone", 40, y.held());
         edge.throwing(y, "heldLength(41)", Edge.IOOBE, () -> y.heldLength(41));
@@ -249,7 +249,7 @@ public final class EdgeWholeTest {
 
     private void filesAndOut() {
         edge.sentence("1: there are the files 0 to 3, each of 0 to 40 rows");
-        Lineorders x = Edge.empties(40);
+        Subject x = Edge.empties(40);
         edge.allowed(x, "w0;%w3;40w1");
         check.same("40 rows", 40, x.fileRows(0));
         check.same("40 rows by %", 40, x.fileRows(3));
@@ -262,7 +262,7 @@ public final class EdgeWholeTest {
         edge.allowed(x, "%p;%n;1,19p");
         check.same("99 rows", 99, x.outs());
         for (String orders : new String[] {"p", "n", "=", "1p", "40n", "%=", "{p}"}) {
-            Lineorders y = Edge.empties(40);
+            Subject y = Edge.empties(40);
             Check.run(y, "%p;%n;1,19p");
             edge.allowed(y, orders);
             check.same("100 rows by " + orders, 100, y.outs());
@@ -312,7 +312,7 @@ public final class EdgeWholeTest {
         edge.sentence("0: a row is 0 to 30 characters, also in the out");
         edge.allowed(Check.with(r28), "n", r28 + " @1");
         edge.refused(Check.with(r29), "n", 4);
-        Lineorders x = Edge.empties(10);
+        Subject x = Edge.empties(10);
         Check.run(x, "9c" + Edge.ROW30.substring(2));
         Check.run(x, "10c" + r28);
         edge.allowed(x, "9n");
@@ -327,7 +327,7 @@ public final class EdgeWholeTest {
 
     private void doneWhollyOrRefused() {
         edge.sentence("4: an order is done wholly, or is refused: nothing of it is done, and those behind are not done");
-        Lineorders x = Check.with("a", Edge.ROW30);
+        Subject x = Check.with("a", Edge.ROW30);
         check.same("those ahead of it stay done", 2, Check.run(x, "1s/a/b/;1kc;%>1;1d"));
         check.same("the reason", 4, x.reason());
         check.same("the text", "b|" + Edge.ROW30 + " @1", Edge.state(x));
@@ -342,41 +342,43 @@ public final class EdgeWholeTest {
 
     private void sixtyOrders() {
         edge.sentence("4: each order that is come to counts as one; a 61st one is refused, by 7");
-        Lineorders x = Check.with("a");
+        Subject x = Check.with("a");
         check.same("60 of a round", 60, Check.run(x, ":A;=;=;bA"));
         check.same("the 61st", 7, x.reason());
         check.same("those ahead of it stay done: = in 19 rounds of 3 and once more", 40, x.outs());
-        Lineorders y = Edge.empties(29);
+        Subject y = Edge.empties(29);
         check.same("1 and 29 times 2, and 1 more", 2, Check.run(y, "%{=;=};q"));
         check.same("60 are allowed", 0, y.reason());
         check.same("1 and 29 times 2, and 2 more", 2, Check.run(y, "%{>0;>0};p;q"));
         check.same("61 are not", 7, y.reason());
         check.same("the deed ahead of it is done", 59, y.outs());
-        Lineorders z = Edge.empties(30);
+        Subject z = Edge.empties(30);
         edge.refused(z, "%{>0;>0}", 7);
         check.same("58 ahead of 2 of the 29th", 0, Check.run(z, "%{>0;<0};p"));
+        check.same("the 60th is one in a block", 2, Check.run(Edge.empties(29), "p;%{=;>0}"));
+        check.same("the 61st is one in a block", 2, Check.run(Edge.empties(29), "p;=;%{=;>0}"));
         edge.sentence("4: also each behind g or G, for each line with which it is done");
-        Lineorders g = Edge.empties(40);
+        Subject g = Edge.empties(40);
         check.same("1 and 40, and 19 more", 20, Check.run(g, "%g/^$/>0" + ";=".repeat(19)));
         check.same("60 are allowed", 0, g.reason());
         check.same("1 and 40, and 20 more", 20, Check.run(g, "%G/a/>0" + ";=".repeat(20)));
         check.same("61 are not", 7, g.reason());
         check.same("lines that are not met do not count", 21, Check.run(g, "%g/a/>0" + ";=".repeat(20)));
         edge.sentence("4: a block behind g or G is none itself");
-        Lineorders b = Edge.empties(29);
+        Subject b = Edge.empties(29);
         check.same("1 and 29 times 2, and 1 more", 2, Check.run(b, "g/^$/{>0;<0};p"));
         check.same("60 are allowed", 0, b.reason());
         check.same("61 are not", 2, Check.run(b, "G/a/{>0;<0};p;p"));
         check.same("by 7", 7, b.reason());
         edge.sentence("4: 7 comes ahead of all");
         for (String last : new String[] {"30p", "'ap", "/x/p", "9m30", "u", "bX", ">99", "2,1d"}) {
-            Lineorders o = Edge.empties(29);
+            Subject o = Edge.empties(29);
             check.same("the 61st is " + last, 2, Check.run(o, "%{>0;<0};p;" + last));
             check.same("by 7", 7, o.reason());
             check.same("the 60th is " + last, 1, Check.run(o, "%{>0;<0};" + last));
             check.holds("not by 7, but " + o.reason(), o.reason() != 7 && o.reason() != 0);
         }
-        Lineorders in = Edge.empties(30);
+        Subject in = Edge.empties(30);
         edge.refused(in, "2,30{>0;.,29h}", 1);
         edge.refused(in, "%{>0;.,29h}", 7);
     }
@@ -395,7 +397,7 @@ public final class EdgeWholeTest {
         for (int i = 0; i < targets.length; i++) {
             edge.refused(Edge.text("a|b|c", 2), targets[i], whys[i]);
         }
-        Lineorders full = Edge.empties(40);
+        Subject full = Edge.empties(40);
         edge.refused(full, "1t41", 1);
         edge.refused(full, "1t'a", 3);
         edge.refused(full, "1t40", 4);
@@ -417,14 +419,14 @@ public final class EdgeWholeTest {
         for (String orders : new String[] {"3p", "1p", "$p", "$+0p", "$-2p", "9-6p", "0+3p", ".+1p", ".-1p", "99-98p", "1-9+9p",
             "1,3p", "3,3p", "0a", "1-1a", "$-3a", ".-2a", "1m3", "1m0", "1t3", "3t0", "1m$-3", "'b-1p", "'b+1p", "/c/-2p",
             "/b/+1p", "'b-2a", ".,.+1p", "0r0", "0+0u"}) {
-            Lineorders x = Edge.text("a|b|c", 2);
+            Subject x = Edge.text("a|b|c", 2);
             Check.run(x, "2kb;h");
             edge.allowed(x, orders);
         }
         for (String orders : new String[] {"4p", "99p", "0p", "$+1p", "$-3p", "9-5p", "0+4p", ".+2p", ".-2p", "0-1a", "1-2a", "$-4a",
             ".-3a", "1,4p", "4,4p", "1m4", "1m1-2", "1t4", "1t0-1", "'b+2p", "'b-3a", "/c/+1p", "/c/-4a", ".,.+2p", "1,0-1p",
             "4a", "4r0", "4u", "$+1w0", "4g/a/d", "4q", "4b", "4N", "4T", "0q", "0b", "0N", "0T", "1,4q", "2,1q"}) {
-            Lineorders x = Edge.text("a|b|c", 2);
+            Subject x = Edge.text("a|b|c", 2);
             Check.run(x, "2kb;h");
             edge.refused(x, orders, 1);
         }
@@ -437,7 +439,7 @@ public final class EdgeWholeTest {
         int[] next = {3, 3, 1, 3, 1, 1, -1};
         int[] nearest = {3, 1, 1, 3, 1, 1, -1};
         for (int i = 0; i < lines.length; i++) {
-            Lineorders x = Edge.text(lines[i], present[i]);
+            Subject x = Edge.text(lines[i], present[i]);
             String at = lines[i] + " at " + present[i];
             Check.type(x, "a");
             check.same("find(false) in " + at, next[i], x.find(false));
@@ -453,11 +455,15 @@ public final class EdgeWholeTest {
                 edge.allowed(x, "?a?p", lines[i] + " @" + nearest[i]);
             }
         }
+        edge.allowed(Edge.text("a||b", 1), "/^$/p", "a||b @2");
+        edge.allowed(Edge.text("a||b", 3), "?^$?p", "a||b @2");
+        edge.allowed(Edge.text("a||b", 1), "/*/p", "a||b @2");
+        edge.allowed(Edge.text("a||b", 3), "?()?p", "a||b @2");
         edge.sentence("4: without lines there is none");
-        edge.refused(new Lineorders(), "/*/p", 2);
-        edge.refused(new Lineorders(), "?^$?a", 2);
+        edge.refused(new Subject(), "/*/p", 2);
+        edge.refused(new Subject(), "?^$?a", 2);
         edge.sentence("4: of ' and a mark the line at which it stands (refused by 3, if at none)");
-        Lineorders x = Edge.text("a|b|c", 1);
+        Subject x = Edge.text("a|b|c", 1);
         edge.refused(x, "'ap", 3);
         edge.allowed(x, "3ka;'ap", "a|b|c @3");
         edge.allowed(x, "1,2m$;'ap", "c|a|b @1");
@@ -484,7 +490,7 @@ public final class EdgeWholeTest {
         edge.sentence("4: for g, G and w all lines");
         edge.allowed(Edge.text("a|b|c", 2), "g/./s/*/x/", "x|x|x @3");
         edge.allowed(Edge.text("a|b|c", 2), "G/q/s/*/x/", "x|x|x @3");
-        Lineorders x = Edge.text("a|b|c", 2);
+        Subject x = Edge.text("a|b|c", 2);
         edge.allowed(x, "w1;.w2;{w3}");
         check.same("w", "a|b|c", Check.file(x, 1));
         check.same("w with one address", "b", Check.file(x, 2));
@@ -496,7 +502,7 @@ public final class EdgeWholeTest {
         String[] acts = {"ix", "cx", "d", "j", "l", "p", "=", "n", "h", "H", "e", "q", "N", "v1", ">1", "<1", "o0", "O0", "m2", "t2",
             "ka", "w0", "b", "T", "bA", "s/a/b/", "z/a/b/", "g/a/p", "G/a/p", "{p}"};
         for (String act : acts) {
-            Lineorders x = Edge.text("a|b|c", 2);
+            Subject x = Edge.text("a|b|c", 2);
             Check.run(x, "1h");
             edge.refused(x, "0" + act, 1);
             edge.refused(x, "1-1" + act, 1);
@@ -505,7 +511,7 @@ public final class EdgeWholeTest {
         }
         edge.sentence("4: but with one address, or without a where, a, r and u are done behind 0");
         for (String act : new String[] {"ax", "r0", "u"}) {
-            Lineorders x = Edge.text("a|b", 2);
+            Subject x = Edge.text("a|b", 2);
             Check.run(x, "1cx;1w0;1h;1ca");
             edge.allowed(x, "0" + act, "x|a|b @1");
             x.undo();
@@ -529,7 +535,7 @@ public final class EdgeWholeTest {
     private void textsWithoutLines() {
         edge.sentence("4: in a text without lines g, G and w, with % or without a where, have no lines");
         for (String orders : new String[] {"g/*/d", "%g/*/d", "G/a/d", "%G/a/{d}", "g/*/{9p;u}", "w2", "%w2"}) {
-            Lineorders x = Check.with("a", "b");
+            Subject x = Check.with("a", "b");
             Check.run(x, "w2;%d");
             int deeds = x.deeds();
             edge.allowed(x, orders, " @0");
@@ -537,23 +543,23 @@ public final class EdgeWholeTest {
             check.same("the file has no rows by w", orders.endsWith("w2") ? 0 : 2, x.fileRows(2));
         }
         for (String orders : new String[] {"1g/*/d", "0g/*/d", ".G/a/d", "$w2", "0w2", ".,$w2"}) {
-            Lineorders x = Check.with("a", "b");
+            Subject x = Check.with("a", "b");
             Check.run(x, "w2;%d");
             edge.refused(x, orders, 1);
         }
         edge.sentence("4: all other orders with % are refused by 1 there");
         for (String act : new String[] {"ax", "ix", "cx", "d", "j", "l", "p", "=", "n", "h", "H", "u", "e", "q", "N", "v1", ">1", "<1",
             "o0", "O0", "m0", "t0", "ka", "r0", "b", "T", "bA", "s/a/b/", "z/a/b/", "{p}"}) {
-            Lineorders x = new Lineorders();
+            Subject x = new Subject();
             edge.refused(x, "%" + act, 1);
         }
         for (String orders : new String[] {"q", "b", "T", ":A", "TX", ":A;q;bA", "r0", "0r0"}) {
-            edge.allowed(new Lineorders(), orders, " @0");
+            edge.allowed(new Subject(), orders, " @0");
         }
-        edge.refused(new Lineorders(), "bX", 6);
-        edge.refused(new Lineorders(), "N", 1);
-        edge.refused(new Lineorders(), "{p}", 1);
-        edge.refused(new Lineorders(), "u", 5);
+        edge.refused(new Subject(), "bX", 6);
+        edge.refused(new Subject(), "N", 1);
+        edge.refused(new Subject(), "{p}", 1);
+        edge.refused(new Subject(), "u", 5);
     }
 
     // ---- part 4: what the acts do
@@ -623,7 +629,7 @@ public final class EdgeWholeTest {
 
     private void telling() {
         edge.sentence("4, p, n, =: the rows, the numbers and a blank ahead of each, the digits of l");
-        Lineorders x = Edge.empties(10);
+        Subject x = Edge.empties(10);
         Check.run(x, "9,10cx|");
         edge.allowed(x, "8,10p");
         check.same("p", "|x|", Check.out(x));
@@ -635,13 +641,16 @@ public final class EdgeWholeTest {
         x.clearOut();
         edge.allowed(x, "2p;9=;10=;1,3=;%=;=");
         check.same("=", "|9|10|3|10|2", Check.out(x));
+        Subject full = Edge.empties(40);
+        edge.allowed(full, "19=;20=;39=;40=;29,31n;40n");
+        check.same("two digits", "19|20|39|40|29 |30 |31 |40 ", Check.out(full));
         check.same("the present line stays", 2, x.present());
         check.same("p of a row without characters", 0, x.outLength(1));
     }
 
     private void holding() {
         edge.sentence("4, h: held are the rows of the range, and no others; H: they are held, too, behind those that are");
-        Lineorders x = Edge.text("a|b|c", 1);
+        Subject x = Edge.text("a|b|c", 1);
         edge.allowed(x, "1,2h", "a|b|c @2");
         check.same("h", "a|b", Check.held(x));
         edge.allowed(x, "3h;1,2H", "a|b|c @2");
@@ -649,7 +658,7 @@ public final class EdgeWholeTest {
         edge.allowed(x, "2h");
         check.same("no others", "b", Check.held(x));
         edge.sentence("4, u and e: refused by 5, if nothing is held");
-        Lineorders none = Edge.text("a|b|c", 1);
+        Subject none = Edge.text("a|b|c", 1);
         for (String orders : new String[] {"u", "0u", "%u", "1,2u", "e", "%e", "2,3e"}) {
             edge.refused(none, orders, 5);
         }
@@ -695,8 +704,18 @@ public final class EdgeWholeTest {
         String r29 = Edge.ROW30.substring(1);
         edge.allowed(Edge.text(r29 + "b|" + r29 + "a", 1), "%o29", r29 + "a|" + r29 + "b @2");
         edge.allowed(Edge.text(r29 + "b|" + r29 + "a", 1), "%o30", r29 + "b|" + r29 + "a @2");
+        Subject full = Edge.empties(40);
+        edge.allowed(full, "20ca;%o0");
+        check.same("the last of 40 lines", 1, full.length(40));
+        edge.allowed(full, "%O0");
+        check.same("the first of 40 lines", 1, full.length(1));
+        edge.allowed(full, "1m$");
+        check.same("moved behind the last of 40 lines", 1, full.length(40));
+        edge.allowed(full, "$m0");
+        check.same("and ahead of the first", 1, full.length(1));
+        check.same("the ids of 40 lines", 40, full.lineOf(39));
         edge.sentence("4, o, O: alike ones stay in their order; l is the present line");
-        Lineorders x = Edge.text("xa|ya|xb|yb|za", 1);
+        Subject x = Edge.text("xa|ya|xb|yb|za", 1);
         edge.allowed(x, "%o1");
         check.same("o", "0 1 4 2 3", Check.ids(x));
         edge.allowed(x, "%O1");
@@ -711,7 +730,7 @@ public final class EdgeWholeTest {
         String[] due = {"c|d|a|b|e @2", "a|c|d|b|e @3", null, "a|b|c|d|e @4", "a|b|c|d|e @4", "a|b|e|c|d @5"};
         String[] targets = {"0", "1", "3", "2", "4", "5"};
         for (int i = 0; i < targets.length; i++) {
-            Lineorders x = Edge.text("a|b|c|d|e", 1);
+            Subject x = Edge.text("a|b|c|d|e", 1);
             if (due[i] == null) {
                 edge.refused(x, "3,4m" + targets[i], 1);
             } else {
@@ -736,6 +755,11 @@ public final class EdgeWholeTest {
     }
 
     private void copying() {
+        Subject twice = Edge.text("a|b|c", 1);
+        edge.allowed(twice, "3m0+1", "a|c|b @2");
+        edge.allowed(twice, "3m0", "b|a|c @1");
+        edge.allowed(twice, "1m.+1", "a|b|c @2");
+        edge.allowed(twice, "1m.", "b|a|c @2");
         edge.sentence("4, t: copies are put there, wherever that is; the last one put there is the present line");
         edge.allowed(Edge.text("a|b|c", 1), "2,3t0", "b|c|a|b|c @2");
         edge.allowed(Edge.text("a|b|c", 1), "2,3t1", "a|b|c|b|c @3");
@@ -743,7 +767,7 @@ public final class EdgeWholeTest {
         edge.allowed(Edge.text("a|b|c", 1), "2,3t3", "a|b|c|b|c @5");
         edge.refused(Edge.text("a|b|c", 1), "2,3t4", 1);
         edge.allowed(Edge.text("a|b|c", 1), "2t2", "a|b|b|c @3");
-        Lineorders x = Edge.text("a|b|c", 1);
+        Subject x = Edge.text("a|b|c", 1);
         Check.run(x, "2kb;2t0;2t4");
         check.same("copies are new, marks stay", "3 0 1 2 4", Check.ids(x));
         check.same("the mark", 3, x.mark(1));
@@ -751,7 +775,7 @@ public final class EdgeWholeTest {
 
     private void marking() {
         edge.sentence("4, k: the mark stands at l; the present line stays");
-        Lineorders x = Edge.text("a|b|c", 1);
+        Subject x = Edge.text("a|b|c", 1);
         edge.allowed(x, "2,3kb", "a|b|c @1");
         check.same("l", 3, x.mark(1));
         edge.allowed(x, "%kb;2kc", "a|b|c @1");
@@ -770,6 +794,9 @@ public final class EdgeWholeTest {
         edge.allowed(Edge.text("aaaaaaaaa", 1), "s/a/b/9", "aaaaaaaab @1");
         edge.allowed(Edge.text("aaaaaaaa", 1), "s/a/b/9", "aaaaaaaa @1");
         edge.allowed(Edge.text("aaaaaaaa", 1), "s/a/b/g", "bbbbbbbb @1");
+        edge.allowed(Edge.text("a".repeat(30), 1), "s/a/b/g", "b".repeat(30) + " @1");
+        edge.allowed(Edge.text("a".repeat(30), 1), "s/()/&/g", "a".repeat(30) + " @1");
+        edge.allowed(Edge.text("a".repeat(30), 1), "s/aa//g", " @1");
         edge.sentence("4, s: & are the characters of the find, \\ and a digit those that its group fits, all else itself");
         edge.allowed(Edge.text("xaby", 1), "s/(a)(b)/\\2&\\1 1/", "xbaba 1y @1");
         edge.allowed(Edge.text("xy", 1), "s/()/&\\1/", "xy @1");
@@ -787,6 +814,8 @@ public final class EdgeWholeTest {
         edge.sentence("4, z: if a character stands there more than once, by the first; l is the present line");
         edge.allowed(Edge.text("aab|ba", 1), "%z/aba/xyz/", "xxy|yx @2");
         edge.allowed(Edge.text("aab|ba", 2), "1z/ab/ba/", "bba|ba @1");
+        edge.allowed(Edge.text("abcd", 1), "z/ab/cd/", "cdcd @1");
+        edge.allowed(Edge.text("abcd", 1), "z/abcd/bcda/", "bcda @1");
         edge.allowed(Edge.text("a 9", 1), "z/ 9a/9a /", " 9a @1");
         edge.allowed(Edge.text("a|b", 1), "2z/c/d/", "a|b @2");
         edge.allowed(Edge.text(Edge.ROW30, 1), "z/9/x/", Edge.ROW30.replace('9', 'x') + " @1");
@@ -794,7 +823,7 @@ public final class EdgeWholeTest {
 
     private void filing() {
         edge.sentence("4, r: the rows of the file become new lines behind l; without rows nothing is done");
-        Lineorders x = Edge.text("a|b|c", 2);
+        Subject x = Edge.text("a|b|c", 2);
         int deeds = x.deeds();
         edge.allowed(x, "r0", "a|b|c @2");
         edge.allowed(x, "1r0", "a|b|c @2");
@@ -851,7 +880,7 @@ public final class EdgeWholeTest {
             "{o0;v0;/q/p}", "g/a/3j", "%{%d;a;9p}", "%{2w1;w2;>99}", "1,2{H;H;%>0;%e;'bd}"};
         int[] why = {1, 1, 3, 1, 2, 1, 1, 4, 3};
         for (int i = 0; i < orders.length; i++) {
-            Lineorders x = Edge.text("a|b|a", 2);
+            Subject x = Edge.text("a|b|a", 2);
             Check.run(x, "1ka;1h;2w0;1p;2>0");
             edge.refused(x, orders[i], why[i]);
             edge.nextId(x, 3);
@@ -860,7 +889,7 @@ public final class EdgeWholeTest {
         edge.refused(Edge.text("a|b|a", 1), "{e}", 5);
         edge.refused(Edge.text("a|b|" + Edge.ROW30, 1), "g/[a9]/s/^/x/", 4);
         edge.allowed(Edge.text("a|b|a", 1), "%{%d}", " @0");
-        Lineorders y = Edge.text("a|b|a", 1);
+        Subject y = Edge.text("a|b|a", 1);
         check.same("orders ahead of it stay done", 1, Check.run(y, "2d;g/a/{d;p};1p"));
         check.same("by 1", 1, y.reason());
         check.same("the text", "a|a @2", Edge.state(y));
@@ -891,7 +920,7 @@ public final class EdgeWholeTest {
         edge.refused(Edge.text("a|b|c", 2), "0,3N", 1);
         edge.sentence("4: an order : does nothing");
         edge.allowed(Edge.text("a|b|c", 2), ":A", "a|b|c @2");
-        edge.allowed(new Lineorders(), ":Z", " @0");
+        edge.allowed(new Subject(), ":Z", " @0");
     }
 
     private void jumping() {
@@ -901,6 +930,8 @@ public final class EdgeWholeTest {
         edge.allowed(Edge.text("a|b|c", 1), "bA;9p;:A", "a|b|c @1");
         edge.allowed(Edge.text("a|b|c", 1), "b;9p;:A", "a|b|c @1");
         edge.allowed(Edge.text("a|b|c", 1), ":A;d;/c/bB;bA;:B", "c @1");
+        check.same("a second : with the label", 4, Check.run(Edge.text("a|b|c", 1), ":A;p;:A;p"));
+        edge.allowed(Edge.text("a|b|c", 1), ":A;d;:A;s/$/x/", "bx|c @1");
         edge.sentence("4: the reason 6 is told where a jump would be gone");
         edge.refused(Edge.text("a|b|c", 1), "bX", 6);
         edge.refused(Edge.text("a|b|c", 1), "%bX", 6);
@@ -908,7 +939,7 @@ public final class EdgeWholeTest {
         edge.allowed(Edge.text("a|b|c", 1), "2bX", "a|b|c @1");
         edge.allowed(Edge.text("a|b|c", 1), "TX", "a|b|c @1");
         edge.allowed(Edge.text("a|b|c", 1), "q;bX", "a|b|c @1");
-        Lineorders x = Edge.text("a|b|c", 1);
+        Subject x = Edge.text("a|b|c", 1);
         check.same("s is done, TX is not", 1, Check.run(x, "s/a/d/;TX;d"));
         check.same("by 6", 6, x.reason());
         check.same("the text", "d|b|c @1", Edge.state(x));
@@ -927,7 +958,7 @@ public final class EdgeWholeTest {
         edge.allowed(Edge.text("a|b", 1), "g/a/s/a/x/;T;d", "x|b @1");
         edge.allowed(Edge.text("a|b", 1), "G/b/{s/a/x/};T;d", "x|b @1");
         edge.allowed(Edge.text("a|b", 1), "z/a/x/;>1;T;d", "b @1");
-        Lineorders x = Edge.text("a|b", 1);
+        Subject x = Edge.text("a|b", 1);
         edge.allowed(x, "s/a/x/", "x|b @1");
         edge.allowed(x, "T;d", "b @1");
         edge.sentence("4, T: or since the last T that went on elsewhere");
@@ -949,10 +980,10 @@ public final class EdgeWholeTest {
         edge.refused(Edge.text("a|b|c", 3), "3N", 1);
         edge.allowed(Edge.text("a|b|c", 3), "1,2N", "a|b|c @3");
         edge.allowed(Edge.text("a|b|c", 1), "N;N", "a|b|c @3");
-        Lineorders x = Edge.text("a|b|c", 1);
+        Subject x = Edge.text("a|b|c", 1);
         check.same("the third N is refused", 2, Check.run(x, "N;N;N;p"));
         check.same("by 1", 1, x.reason());
         check.same("those ahead stay done", 3, x.present());
-        edge.refused(new Lineorders(), "N", 1);
+        edge.refused(new Subject(), "N", 1);
     }
 }

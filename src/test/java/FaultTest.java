@@ -99,7 +99,7 @@ public final class FaultTest {
 
     /** Where a pattern is found in a row, as place-end; -1 if it is not. */
     private String found(String pattern, String row) {
-        Lineorders x = Check.with(row);
+        Subject x = Check.with(row);
         Check.type(x, pattern);
         int place = x.findStart(1);
         return place < 0 ? "-1" + (x.findEnd(1) == -1 ? "" : "?") : place + "-" + x.findEnd(1);
@@ -134,7 +134,7 @@ public final class FaultTest {
         finds("(.)\\1", "abc", "-1");
         finds("()a\\1", "ba", "1-2");
         finds("0", "a0", "1-2");
-        Lineorders x = Check.with("aaaa", "a", "aaaaaaaaaaaaaaaaaaaaaaaaaaaaaa");
+        Subject x = Check.with("aaaa", "a", "aaaaaaaaaaaaaaaaaaaaaaaaaaaaaa");
         Check.type(x, "^(a)\\1");
         check.same("aa in aaaa", 0, x.findStart(1));
         check.same("aa in a, behind aaaa", -1, x.findStart(2));
@@ -157,7 +157,7 @@ public final class FaultTest {
         finds("(a*)b\\1", "aacbaac", "0-7");
         finds("a*a", "aaa", "0-3");
         finds("a*c", "abab", "-1");
-        Lineorders x = Check.with("abcabc");
+        Subject x = Check.with("abcabc");
         Check.run(x, "s/(*)b(*)/\\2x\\1/");
         check.same("the first star has the most", "cxabca", Check.text(x));
         Check.run(x, "%ca a a;s/(*) (*)/b\\1db\\2d/");

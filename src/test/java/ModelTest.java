@@ -3,12 +3,12 @@ import java.util.Random;
 
 /** Random calls, by fixed seeds, done by the class and by the model; after each call all that can be asked is compared. */
 public final class ModelTest {
-    private static final int OBJECTS = Integer.getInteger("objects", 1500);
+    private static final int OBJECTS = Integer.getInteger("objects", 3000);
     private static final int FIRST = Integer.getInteger("first", 1);
 
     private final Check check;
     private final Random random;
-    private final Lineorders x = new Lineorders();
+    private final Subject x = new Subject();
     private final Model m = new Model();
     private final StringBuilder story = new StringBuilder();
     private final boolean gentle;
@@ -39,7 +39,7 @@ public final class ModelTest {
         Check check = new Check();
         for (int seed = FIRST; seed < FIRST + OBJECTS; seed++) {
             ModelTest test = new ModelTest(check, seed);
-            for (int call = 0; call < 25; call++) {
+            for (int call = 0; call < 25 && test.x.changes() < 430; call++) {
                 if (!test.oneCall()) {
                     System.out.println("  after " + test.story);
                     break;

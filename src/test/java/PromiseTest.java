@@ -38,7 +38,7 @@ public final class PromiseTest {
 
     private void newObject() {
         check.topic("promise 1");
-        Lineorders x = new Lineorders();
+        Subject x = new Subject();
         check.same("lines", 0, x.lines());
         check.same("present", 0, x.present());
         check.same("deeds", 0, x.deeds());
@@ -53,14 +53,14 @@ public final class PromiseTest {
         }
         check.same("lineOf", -1, x.lineOf(0));
         check.holds("isSound", x.isSound());
-        Lineorders other = new Lineorders();
+        Subject other = new Subject();
         Check.run(other, "ab");
         check.same("another object stays", 0, x.lines());
     }
 
     private void typing() {
         check.topic("promise 2");
-        Lineorders x = new Lineorders();
+        Subject x = new Subject();
         check.same("the first sign", 1, x.type(32));
         check.same("the second sign", 2, x.type(126));
         for (int sign : new int[] {31, 127, 0, -1, 97 + 256, Integer.MIN_VALUE, Integer.MAX_VALUE}) {
@@ -78,7 +78,7 @@ public final class PromiseTest {
 
     private void wiping() {
         check.topic("promise 3");
-        Lineorders x = new Lineorders();
+        Subject x = new Subject();
         check.same("an empty tape", 0, x.wipe());
         Check.type(x, "aab");
         x.run();
@@ -104,7 +104,7 @@ public final class PromiseTest {
 
     private void running() {
         check.topic("promise 6");
-        Lineorders x = new Lineorders();
+        Subject x = new Subject();
         check.throwing("run() of an empty tape", ISE, x::run);
         check.same("one order", 1, Check.run(x, "aa|b|c"));
         check.same("the text", "a|b|c", Check.text(x));
@@ -114,7 +114,7 @@ public final class PromiseTest {
         check.same("those behind g are not counted", 2, Check.run(x, "g/y/s/y/z/;p"));
         check.same("one that is refused is not counted", 1, Check.run(x, "1p;9p;2p"));
         check.same("orders that a T goes back to count again", 6, Check.run(x, "1s/z/y/;:A;s/y/x/;TA"));
-        Lineorders y = Check.with("aaa");
+        Subject y = Check.with("aaa");
         check.same("an order that is come to twice counts twice", 10, Check.run(y, ":A;s/a/b/;TA;p"));
         check.same("no b is skipped", "bbb", Check.text(y));
         Check.type(x, "1;p");
@@ -123,7 +123,7 @@ public final class PromiseTest {
 
     private void keeping() {
         check.topic("promise 7");
-        Lineorders x = new Lineorders();
+        Subject x = new Subject();
         check.throwing("a fault", ISE, () -> x.keep(0));
         Check.type(x, "aab;d");
         check.same("keep", 5, x.keep(0));
@@ -149,7 +149,7 @@ public final class PromiseTest {
 
     private void playing() {
         check.topic("promise 8");
-        Lineorders x = new Lineorders();
+        Subject x = new Subject();
         Check.keep(x, 2, "$aa;p;9d");
         x.wipe();
         check.same("play", 2, x.play(2));
@@ -168,7 +168,7 @@ public final class PromiseTest {
 
     private void streaming() {
         check.topic("promise 9");
-        Lineorders x = Check.with("a", "b");
+        Subject x = Check.with("a", "b");
         Check.keep(x, 0, "s/a/x/;g/b/{p;=};{p}");
         x.wipe();
         check.same("those behind g and in blocks count", 3 + 1 + 3 + 2 + 1, x.stream(0));
@@ -181,14 +181,14 @@ public final class PromiseTest {
         for (int script : BEYOND) {
             check.throwing("stream(" + script + ")", IOOBE, () -> x.stream(script));
         }
-        Lineorders empty = new Lineorders();
+        Subject empty = new Subject();
         check.same("without lines none is come to", 0, Check.stream(empty, "q;p"));
         check.same("it is a deed all the same", 1, empty.deeds());
     }
 
     private void reasons() {
         check.topic("promise 10");
-        Lineorders x = new Lineorders();
+        Subject x = new Subject();
         check.same("ahead of all", 0, x.reason());
         Check.run(x, "d");
         check.same("no such line", 1, x.reason());
@@ -221,7 +221,7 @@ public final class PromiseTest {
 
     private void scripts() {
         check.topic("promise 11");
-        Lineorders x = new Lineorders();
+        Subject x = new Subject();
         check.same("none was kept", -1, x.scriptLength(0));
         check.throwing("none was kept", IOOBE, () -> x.scriptAt(0, 0));
         Check.keep(x, 1, "a ;=");
@@ -247,7 +247,7 @@ public final class PromiseTest {
 
     private void undoing() {
         check.topic("promise 13");
-        Lineorders x = new Lineorders();
+        Subject x = new Subject();
         check.throwing("none kept", ISE, x::undo);
         Check.run(x, "aa|b|c;2ka;1d");
         check.same("the text", "b|c", Check.text(x));
@@ -276,7 +276,7 @@ public final class PromiseTest {
 
     private void undoingRuns() {
         check.topic("promise 14");
-        Lineorders x = new Lineorders();
+        Subject x = new Subject();
         check.throwing("none kept", ISE, x::undoRun);
         Check.run(x, "aa|b;1d;:A;2d");
         check.same("the text", "b", Check.text(x));
@@ -296,7 +296,7 @@ public final class PromiseTest {
         check.same("a run in which one was refused", 2, x.undoRun());
         check.same("no deeds", 0, x.deeds());
         check.throwing("none left", ISE, x::undoRun);
-        Lineorders y = new Lineorders();
+        Subject y = new Subject();
         Check.run(y, "aa");
         Check.run(y, ":A;=;bA");
         check.same("at most 40 are kept", 30, y.undoRun());
@@ -304,7 +304,7 @@ public final class PromiseTest {
 
     private void keptDeeds() {
         check.topic("promise 15");
-        Lineorders x = new Lineorders();
+        Subject x = new Subject();
         Check.run(x, "aa;:A;bB;:B;TA;p;=;1N");
         check.same("a, p and = are deeds; : b T are none, N was refused", 3, x.deeds());
         Check.run(x, "1,1N");
@@ -324,20 +324,25 @@ public final class PromiseTest {
         check.same("undo", 39, x.undo());
         x.sample(0, 1);
         check.same("a sample", 40, x.deeds());
-        Lineorders y = new Lineorders();
+        Subject y = new Subject();
+        Check.run(y, "aa");
+        Check.type(y, "z/abcdefghijklmnopqrstuvwxyz/bcdefghijklmnopqrstuvwxyza/");
+        int turns = 0;
         for (int round = 0; round < 3; round++) {
             for (int deed = 0; deed < 45; deed++) {
-                Check.run(y, (y.lines() == 0 ? "an" : "cn") + deed);
+                y.run();
             }
-            Check.run(y, "T;9p");
-            check.same("45 deeds, and what is none", 40, y.deeds());
-            for (int deed = 43; deed >= 24; deed--) {
-                check.same("undo", deed - 4, y.undo());
-                check.same("as it was ahead", "n" + deed, Check.text(y));
+            turns += 45;
+            check.same("45 deeds", 40, y.deeds());
+            for (int left = 39; left >= 20; left--) {
+                turns--;
+                check.same("undo", left, y.undo());
+                check.same("as it was ahead", 'a' + turns % 26, y.at(1, 0));
             }
-            for (int deed = 23; deed >= 4; deed--) {
+            for (int left = 19; left >= 0; left--) {
+                turns--;
                 check.same("undoRun of one", 1, y.undoRun());
-                check.same("as it was ahead", "n" + deed, Check.text(y));
+                check.same("as it was ahead", 'a' + turns % 26, y.at(1, 0));
             }
             check.throwing("the others were dropped", ISE, y::undo);
         }
@@ -345,7 +350,7 @@ public final class PromiseTest {
 
     private void theText() {
         check.topic("promises 16 to 21");
-        Lineorders x = new Lineorders();
+        Subject x = new Subject();
         check.throwing("length of line 0", IOOBE, () -> x.length(0));
         check.throwing("at(0, 0)", IOOBE, () -> x.at(0, 0));
         check.throwing("id(0)", IOOBE, () -> x.id(0));
@@ -383,7 +388,7 @@ public final class PromiseTest {
 
     private void theMarks() {
         check.topic("promise 22");
-        Lineorders x = Check.with("a", "b", "c");
+        Subject x = Check.with("a", "b", "c");
         Check.run(x, "1ka;2kb;3kc;1kd;2ke");
         check.same("marks", "1 2 3 1 2", Check.marks(x));
         Check.run(x, "1m$");
@@ -401,7 +406,7 @@ public final class PromiseTest {
 
     private void sampling() {
         check.topic("promise 23");
-        Lineorders x = new Lineorders();
+        Subject x = new Subject();
         // The seeds behind 1: 39022, 61187, 40472, .. of which each lot takes a sixteenth.
         check.same("sample(1, 3)", 3, x.sample(1, 3));
         check.same("the lines", sampled(1, 3), Check.text(x));
@@ -442,7 +447,7 @@ public final class PromiseTest {
 
     private void whatIsHeld() {
         check.topic("promises 24 to 26");
-        Lineorders x = Check.with("ab", "", "c d");
+        Subject x = Check.with("ab", "", "c d");
         check.throwing("heldLength(1) of none", IOOBE, () -> x.heldLength(1));
         check.throwing("heldAt(1, 0) of none", IOOBE, () -> x.heldAt(1, 0));
         Check.run(x, "%h");
@@ -466,7 +471,7 @@ public final class PromiseTest {
 
     private void theOut() {
         check.topic("promises 27 to 30");
-        Lineorders x = Check.with("ab", "");
+        Subject x = Check.with("ab", "");
         check.same("outs", 0, x.outs());
         check.same("clearOut of none", 0, x.clearOut());
         Check.run(x, "%p;$=");
@@ -499,7 +504,7 @@ public final class PromiseTest {
 
     private void theFiles() {
         check.topic("promises 31 to 33");
-        Lineorders x = Check.with("ab", "", "c d");
+        Subject x = Check.with("ab", "", "c d");
         Check.run(x, "w0;2,3w3;1w1");
         check.same("fileRows(0)", 3, x.fileRows(0));
         check.same("fileRows(1)", 1, x.fileRows(1));
@@ -525,7 +530,7 @@ public final class PromiseTest {
 
     private void finding() {
         check.topic("promise 34");
-        Lineorders x = Check.with("ab", "cd", "abb", "e");
+        Subject x = Check.with("ab", "cd", "abb", "e");
         Check.run(x, "2p");
         Check.type(x, "ab");
         check.same("find(false)", 3, x.find(false));
@@ -539,7 +544,7 @@ public final class PromiseTest {
         check.same("no line, back", -1, x.find(true));
         Check.type(x, "a(");
         check.throwing("a fault", ISE, () -> x.find(false));
-        Lineorders empty = new Lineorders();
+        Subject empty = new Subject();
         check.throwing("an empty tape", ISE, () -> empty.find(true));
         Check.type(empty, "*");
         check.same("no lines", -1, empty.find(false));
@@ -565,7 +570,7 @@ public final class PromiseTest {
 
     private void differing() {
         check.topic("promise 37");
-        Lineorders x = Check.with("a", "b", "c", "d");
+        Subject x = Check.with("a", "b", "c", "d");
         check.same("with an empty file", 4, x.differ(0));
         Check.run(x, "w0;w1");
         check.same("with itself", 0, x.differ(0));
@@ -577,7 +582,7 @@ public final class PromiseTest {
         check.same("d", 4, x.pairOf(0, 2));
         check.same("a", -1, x.pairOf(0, 3));
         check.same("a file of no rows", -1, x.pairOf(2, 1));
-        Lineorders y = Check.with("b", "a");
+        Subject y = Check.with("b", "a");
         Check.run(y, "w0;1m$;w1;%d;r0");
         check.same("the text is b, a; the file a, b", "b|a", Check.text(y));
         check.same("alike: the line is passed", -1, y.pairOf(1, 1));
@@ -590,10 +595,10 @@ public final class PromiseTest {
         for (int line : new int[] {Integer.MIN_VALUE, -1, 0, 4, Integer.MAX_VALUE}) {
             check.throwing("pairOf(0, " + line + ")", IOOBE, () -> x.pairOf(0, line));
         }
-        Lineorders empty = new Lineorders();
+        Subject empty = new Subject();
         check.same("nothing and nothing", 0, empty.differ(3));
         check.throwing("pairOf without lines", IOOBE, () -> empty.pairOf(0, 1));
-        Lineorders full = new Lineorders();
+        Subject full = new Subject();
         full.sample(5, 20);
         full.sample(6, 20);
         Check.run(full, "w0;1,20m$");
@@ -602,7 +607,7 @@ public final class PromiseTest {
 
     private void soundness() {
         check.topic("promise 39");
-        Lineorders x = new Lineorders();
+        Subject x = new Subject();
         check.holds("a new object", x.isSound());
         x.sample(4, 20);
         x.sample(5, 20);
@@ -615,7 +620,7 @@ public final class PromiseTest {
 
     private void throwingChangesNothing() {
         check.topic("part 0: a method that throws changes nothing");
-        Lineorders x = Check.with("a", "b");
+        Subject x = Check.with("a", "b");
         Check.run(x, "1ka;h;w0;p");
         Check.type(x, "d;");
         String ahead = Check.text(x) + Check.ids(x) + Check.marks(x) + Check.held(x) + Check.out(x) + x.deeds();

@@ -28,14 +28,14 @@ public final class WholeTest {
 
     /** Does orders with a text of these lines (parted by bars) and this present line; tells text, present, reason. */
     private String done(String lines, int present, String orders) {
-        Lineorders x = Check.with(lines.split("\\|", -1));
+        Subject x = Check.with(lines.split("\\|", -1));
         Check.run(x, present + "p");
         x.clearOut();
         Check.run(x, orders);
         return state(x);
     }
 
-    private static String state(Lineorders x) {
+    private static String state(Subject x) {
         return Check.text(x) + " @" + x.present() + (x.reason() == 0 ? "" : " !" + x.reason());
     }
 
@@ -103,22 +103,22 @@ public final class WholeTest {
         check.topic("texts without lines");
         for (String orders : new String[] {"d", "p", "=", "ix", "cx", "j", "h", "ka", "v1", ">1", "o0", "m0", "t0", "l",
             "N", "%ax", "%p", "%u", "%r0", "1g/a/d", "1,1w0", "0w0", "$d", "{p}", "%{p}", "%q", "0q", ".b", "%N", "s/a//"}) {
-            Lineorders x = new Lineorders();
+            Subject x = new Subject();
             Check.run(x, orders);
             check.same(orders, " @0 !1", state(x));
             check.same("deeds of " + orders, 0, x.deeds());
         }
         for (String orders : new String[] {"g/a/d", "%g/a/d", "G/a/d", "%G/a/d", "w0", "%w3", "q", "b", "T", ":A", "r0", "0r0", "$r0"}) {
-            Lineorders x = new Lineorders();
+            Subject x = new Subject();
             Check.run(x, orders);
             check.same(orders, " @0", state(x));
         }
         for (String orders : new String[] {"ax", "0ax", ".ax", "$ax", "1-1ax"}) {
-            Lineorders x = new Lineorders();
+            Subject x = new Subject();
             Check.run(x, orders);
             check.same(orders, "x @1", state(x));
         }
-        Lineorders x = new Lineorders();
+        Subject x = new Subject();
         Check.run(x, "ab;w2;h;%d;w2;u");
         check.same("u", "b @1", state(x));
         check.same("a file of no rows", 0, x.fileRows(2));
@@ -137,7 +137,7 @@ public final class WholeTest {
         does("a|b|c", 1, "1,2cx|y|z", "x|y|z|c @3");
         does("a|b|c", 1, "2,3c", "a| @2");
         does("a|b|c", 3, "%cx", "x @1");
-        Lineorders x = Check.with("a", "b", "c");
+        Subject x = Check.with("a", "b", "c");
         Check.run(x, "1ka;2kb;3kc;2cx|y");
         check.same("ids of c", "0 3 4 2", Check.ids(x));
         check.same("marks of c", "1 -1 4 -1 -1", Check.marks(x));
@@ -162,7 +162,7 @@ public final class WholeTest {
         does("a|a|a|b", 1, "2l", "a|a|a|b @2");
         does("a|a |a", 1, "%l", "a|a |a @3");
         does("||a", 1, "%l", "|a @2");
-        Lineorders x = Check.with("a", "a", "a", "b");
+        Subject x = Check.with("a", "a", "a", "b");
         Check.run(x, "2ka;%l");
         check.same("the first one stays", "0 3", Check.ids(x));
         check.same("a mark goes", -1, x.mark(0));
@@ -184,7 +184,7 @@ public final class WholeTest {
         does("abcde|f|gh", 3, "1v5", "abcde|f|gh @1");
         does("abcde|f|gh", 3, "%v99", "abcde|f|gh @3");
         does("||a", 3, "%v0", "|||a @4");
-        Lineorders x = Check.with("abc", "d", "efg");
+        Subject x = Check.with("abc", "d", "efg");
         Check.run(x, "2ka;%v1");
         check.same("ids of v", "0 3 1 2 4", Check.ids(x));
         Check.run(x, "2,4j");
@@ -195,7 +195,7 @@ public final class WholeTest {
 
     private void printing() {
         check.topic("p n =");
-        Lineorders x = Check.with("a", "", "c d");
+        Subject x = Check.with("a", "", "c d");
         Check.run(x, "2,3p;1n;%n;2=;%=");
         check.same("the out", "|c d|1 a|1 a|2 |3 c d|2|3", Check.out(x));
         check.same("present behind =", 3, x.present());
@@ -208,7 +208,7 @@ public final class WholeTest {
         Check.run(x, "9,10n;12=");
         check.same("two digits", "9 x|10 x|12", Check.out(x));
         check.same("the text stays", "x", Check.text(x).substring(Check.text(x).length() - 1));
-        Lineorders y = Check.with("0123456789012345678901234567", "01234567890123456789012345678");
+        Subject y = Check.with("0123456789012345678901234567", "01234567890123456789012345678");
         Check.run(y, "1n;2n");
         check.same("30 characters, not 31", 4, y.reason());
         check.same("the first one is there", "1 0123456789012345678901234567", Check.out(y));
@@ -218,7 +218,7 @@ public final class WholeTest {
 
     private void holding() {
         check.topic("h H u e");
-        Lineorders x = Check.with("a", "b", "c");
+        Subject x = Check.with("a", "b", "c");
         Check.run(x, "1,2h");
         check.same("held", "a|b", Check.held(x));
         check.same("present", 2, x.present());
@@ -238,7 +238,7 @@ public final class WholeTest {
         Check.run(x, "%e");
         check.same("e of all", "c @1", state(x));
         check.same("held by that", "a|b|c|a|c", Check.held(x));
-        Lineorders y = Check.with("a");
+        Subject y = Check.with("a");
         Check.run(y, "u");
         check.same("u of nothing", 5, y.reason());
         Check.run(y, "e");
@@ -276,7 +276,7 @@ public final class WholeTest {
         does("c|b|a", 1, "%o1", "c|b|a @3");
         does("c|b|a", 1, "%O99", "c|b|a @3");
         does("c|b|a", 3, "2o0", "c|b|a @2");
-        Lineorders full = new Lineorders();
+        Subject full = new Subject();
         full.sample(1, 20);
         full.sample(2, 18);
         Check.run(full, "0a;$az;%O0");
@@ -287,7 +287,7 @@ public final class WholeTest {
         for (int line = 2; line <= 40; line++) {
             check.holds("in order at " + line, rowOf(full, line - 1).compareTo(rowOf(full, line)) <= 0);
         }
-        Lineorders x = Check.with("b", "a", "b", "a");
+        Subject x = Check.with("b", "a", "b", "a");
         Check.run(x, "1ka;4kb;%o0");
         check.same("alike ones stay in their order", "1 3 0 2", Check.ids(x));
         check.same("marks go with them", "3 2 -1 -1 -1", Check.marks(x));
@@ -295,7 +295,7 @@ public final class WholeTest {
         check.same("also the other way round", "0 2 1 3", Check.ids(x));
     }
 
-    private static String rowOf(Lineorders x, int line) {
+    private static String rowOf(Subject x, int line) {
         return Check.text(x).split("\\|", -1)[line - 1];
     }
 
@@ -325,7 +325,7 @@ public final class WholeTest {
         does("a|b|c", 1, "1,3t2", "a|b|a|b|c|c @5");
         does("a|b|c", 1, "1t4", "a|b|c @1 !1");
         does("a|b|c", 1, "1t.", "a|a|b|c @2");
-        Lineorders x = Check.with("a", "b", "c");
+        Subject x = Check.with("a", "b", "c");
         Check.run(x, "1ka;3kb;1,2m$");
         check.same("they are the same lines", "2 0 1", Check.ids(x));
         check.same("marks go with them", "2 1 -1 -1 -1", Check.marks(x));
@@ -367,7 +367,7 @@ public final class WholeTest {
 
     private void filing() {
         check.topic("r w");
-        Lineorders x = Check.with("a", "b", "c");
+        Subject x = Check.with("a", "b", "c");
         Check.run(x, "1p;w0;2w1");
         check.same("w without a where takes all", "a|b|c", Check.file(x, 0));
         check.same("w of a line", "b", Check.file(x, 1));
@@ -403,7 +403,7 @@ public final class WholeTest {
         does("a|b|c", 2, "g/b/{d;9p}", "a|b|c @2 !1");
         does("a|b|c", 2, "g/./.+1p", "a|b|c @2 !1");
         does("a|b|c", 1, "2,3{s/*/x&/;1m.}", "a|xc|xb @3");
-        Lineorders x = Check.with("a", "b");
+        Subject x = Check.with("a", "b");
         Check.run(x, "g/./{h;p;w0;2s/b/c/;ka;/q/d}");
         check.same("the whole is refused", "a|b @2 !2", state(x));
         check.same("nothing is held", 0, x.held());
@@ -413,7 +413,7 @@ public final class WholeTest {
         check.same("no deed", 2, x.deeds());
         Check.run(x, "g/./ax;9p;p");
         check.same("ids that a refused order gave are given again", "0 2 1 3", Check.ids(x));
-        Lineorders y = Check.with("a", "b");
+        Subject y = Check.with("a", "b");
         Check.run(y, "%{ax;99p}");
         Check.run(y, "$ay");
         check.same("a refused order has given none", "0 1 2", Check.ids(y));
@@ -450,7 +450,7 @@ public final class WholeTest {
         does("a|a", 1, "1{s/a/b/};TA;d;:A", "b|a @1");
         does("a|b|c", 1, ":A;N;bA", "a|b|c @3 !1");
         does("a|b|c", 1, ":A;$q;N;bA", "a|b|c @3");
-        Lineorders x = Check.with("a");
+        Subject x = Check.with("a");
         Check.run(x, "s/a/b/");
         Check.run(x, "T;s/b/c/");
         check.same("T asks since these orders began", "c", Check.text(x));
@@ -458,22 +458,22 @@ public final class WholeTest {
 
     private void counting() {
         check.topic("how orders are counted");
-        Lineorders full = new Lineorders();
+        Subject full = new Subject();
         full.sample(1, 20);
         full.sample(2, 9);
         check.same("2 and 29 times 2 are 60", 2, Check.run(full, "p;%{=;>0}"));
         check.same("none refused", 0, full.reason());
         check.same("3 and 29 times 2 are 61", 2, Check.run(full, "p;p;%{=;>0}"));
         check.same("the last one is refused", 7, full.reason());
-        Lineorders x = Check.with("a", "b", "c");
+        Subject x = Check.with("a", "b", "c");
         check.same("60 orders", 60, Check.run(x, ":A;=;bA"));
         check.same("a 61st one", 7, x.reason());
         check.same("30 of them", 30, x.outs());
-        Lineorders y = new Lineorders();
+        Subject y = new Subject();
         y.sample(1, 20);
         check.same("g and 19 times 3 and 2 more", 3, Check.run(y, "1,19g/*/{p;=;n};=;=;=;="));
         check.same("61 are too many", 7, y.reason());
-        Lineorders z = new Lineorders();
+        Subject z = new Subject();
         z.sample(1, 20);
         check.same("1 and 20 times 3 are refused", 0, Check.run(z, "%{p;=;n}"));
         check.same("by 7", 7, z.reason());
@@ -498,11 +498,11 @@ public final class WholeTest {
         does("a|b", 1, "9e", "a|b @1 !1");
         does("a|b", 1, "9bX", "a|b @1 !1");
         does("a|b", 1, "9>99", "a|b @1 !1");
-        Lineorders x = Check.with("a");
+        Subject x = Check.with("a");
         Check.run(x, ":A;=;bA");
         Check.run(x, ":A;:B;bA;9p");
         check.same("7 comes ahead of all", 7, x.reason());
-        Lineorders y = new Lineorders();
+        Subject y = new Subject();
         y.sample(3, 20);
         Check.run(y, "1,20{=;=;99p}");
         check.same("the first that is refused tells", 1, y.reason());
@@ -515,13 +515,13 @@ public final class WholeTest {
 
     private void limits() {
         check.topic("too long or too many");
-        Lineorders x = new Lineorders();
+        Subject x = new Subject();
         x.sample(1, 20);
         x.sample(2, 19);
         Check.run(x, "ax");
         check.same("40 lines", 40, x.lines());
         for (String orders : new String[] {"ax", "1ix", "1cx|y", "1t0", "1h;u", "1w0;r0", "1,2h;3e", "40s/*/abc/;40v1", "g/x/ay"}) {
-            Lineorders y = new Lineorders();
+            Subject y = new Subject();
             y.sample(1, 20);
             y.sample(2, 19);
             Check.run(y, "ax");
@@ -543,7 +543,7 @@ public final class WholeTest {
         check.same("100 are", 100, x.outs());
         Check.run(x, "=");
         check.same("one more", 4, x.reason());
-        Lineorders y = Check.with("012345678901234", "012345678901234", "x");
+        Subject y = Check.with("012345678901234", "012345678901234", "x");
         Check.run(y, "1,2j");
         check.same("30 characters", 30, y.length(1));
         Check.run(y, "1j");
@@ -553,9 +553,9 @@ public final class WholeTest {
     private void always() {
         check.topic("what always holds");
         for (String act : new String[] {"s/a/bb/", "z/ab/ba/", ">1", "<1", "v2", "n", "p", "{s/a/x/;p}"}) {
-            Lineorders x = new Lineorders();
+            Subject x = new Subject();
             x.sample(77, 9);
-            Lineorders y = new Lineorders();
+            Subject y = new Subject();
             y.sample(77, 9);
             Check.run(x, "%" + act);
             for (int id = 0; id < 9; id++) {
@@ -566,9 +566,9 @@ public final class WholeTest {
             }
         }
         for (String orders : new String[] {"%s/a/b/;%z/bc/cb/;%>2;%<1", "%s/(*)a/\\1x/g;%s/b/&&/2", "%<3;%z/a / a/"}) {
-            Lineorders x = new Lineorders();
+            Subject x = new Subject();
             x.sample(123, 15);
-            Lineorders y = new Lineorders();
+            Subject y = new Subject();
             y.sample(123, 15);
             Check.run(x, orders);
             Check.stream(y, orders);
