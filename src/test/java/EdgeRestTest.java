@@ -421,7 +421,20 @@ public final class EdgeRestTest {
         check.same("sample(1, 1) of 39", 40, x.sample(1, 1));
         edge.throwing(x, "sample(1, 1) of 40", Edge.ISE, () -> x.sample(1, 1));
         check.same("the last of them is the present line", 40, x.present());
-        check.same("ids", 39, x.id(40));
+        String rows = Check.text(x);
+        check.same("undo() of a sample", 3, x.undo());
+        check.same("the lines ahead of it", 39, x.lines());
+        check.same("the present line ahead of it", 39, x.present());
+        check.holds("their rows", rows.startsWith(Check.text(x)));
+        check.same("another sample", 40, x.sample(1, 1));
+        check.same("the same lots give the same row", rows, Check.text(x));
+        check.same("an id is not given again", 40, x.id(40));
+        x.undo();
+        x.undo();
+        check.same("two samples undone", 21, x.lines());
+        check.same("18 again", 39, x.sample(1, 18));
+        check.same("1 again", 40, x.sample(1, 1));
+        check.same("ids", 59, x.id(40));
     }
 
     private void lots() {
@@ -639,6 +652,19 @@ public final class EdgeRestTest {
         check.same("alike ones in turn, a row more ahead", "2 3 4 / 1", pairs("a|b|a", "b|a|b|a"));
         check.same("a row twice", "1 3 / 1", pairs("a|b", "a|a|b"));
         check.same("a line twice", "1 -1 2 / 1", pairs("a|a|b", "a|b"));
+        check.same("a row is in one pair alone", "2 3 -1 -1 -1 / 4", pairs("b|c|a|a|a", "a|b|c"));
+        check.same("a line is in one pair alone", "-1 -1 1 / 5", pairs("c|b|a", "a|a|a|b"));
+        Subject x = Edge.text("a|b|c", 1);
+        Check.run(x, "w0;3m0;w1;%s/c/d/;w2");
+        for (int again = 0; again < 2; again++) {
+            check.same("with file 0", 2, x.differ(0));
+            check.same("with file 1", 2, x.differ(1));
+            check.same("with file 2", 0, x.differ(2));
+            check.same("with file 3", 3, x.differ(3));
+            check.same("a and file 0", 1, x.pairOf(0, 2));
+            check.same("a and file 1", 2, x.pairOf(1, 2));
+            check.same("a and file 3", -1, x.pairOf(3, 2));
+        }
         check.same("the line is passed as soon as it may", "-1 -1 1 / 3", pairs("b|b|a", "a|c"));
     }
 
