@@ -254,6 +254,11 @@ public final class EdgeByLineTest {
         plays("a|b|c", ":A;1,/y/>1;s/[bc]/y/;TA", " a|  y|  y @3");
         plays("a|b|c", ":A;2,2>1;s/b/y/;TA", "a|  y|c @3");
         plays("a|b|c", ":A;1,2>1;s/b/y/;TA;j", " ab|c @2");
+        plays("a|b|c", ":A;2,3s/$/x/;/c/b;j;bA", "abc @1");
+        plays("a|b|c", ":A;1,2s/$/x/;/c/b;j;bA", "axbxcx @1");
+        edge.sentence("5: a where with one address is looked at each time its order is come to, by the work as it is then");
+        plays("a|b|c", ":A;2s/$/x/;/c/b;j;bA", "abxc @1");
+        plays("a|b|c", ":A;1s/$/x/;/c/b;j;bA", "axbc @1");
         edge.sentence("5: as its order is first come to");
         plays("a|b|c", "s/a/b/;/b/,/b/s/$/x/", "bx|bx|c @3");
         plays("a|b|c|d", "1j;1,3s/$/x/", "ab|c|d @3");

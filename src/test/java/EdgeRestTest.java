@@ -233,6 +233,23 @@ public final class EdgeRestTest {
         edge.throwing(x, "undo() of none", Edge.ISE, x::undo);
         edge.throwing(y, "undo() of none", Edge.ISE, y::undo);
         edge.throwing(y, "undoRun() of none", Edge.ISE, y::undoRun);
+        edge.sentence("6: a 41st deed drops the oldest; what is none, is refused or throws does not");
+        Subject w = new Subject();
+        for (int deed = 1; deed <= 41; deed++) {
+            Check.run(w, deed == 1 ? "a0" : "s/*/" + deed + "/");
+        }
+        Check.run(w, ":A;T;$b;q");
+        edge.refused(w, "2p", 1);
+        edge.refused(w, "%{s/*/x/;2p}", 1);
+        edge.refusedByLine(w, "s/*/x/;l", 8);
+        edge.throwing(w, "sample(0, 0)", Edge.IAE, () -> w.sample(0, 0));
+        check.same("40 are kept", 40, w.deeds());
+        for (int left = 39; left > 0; left--) {
+            w.undo();
+            check.same("with " + left + " kept", (left + 1) + " @1", Edge.state(w));
+        }
+        w.undo();
+        check.same("as it was ahead of the oldest that was kept", "0 @1", Edge.state(w));
         edge.sentence("6: a script and a sample drop the oldest, too");
         Subject z = new Subject();
         Check.run(z, "a0");
@@ -634,6 +651,13 @@ public final class EdgeRestTest {
         Check.run(last, "40w1");
         check.same("40 lines and one row", 39, last.differ(1));
         check.same("the first one like it", 1, last.pairOf(1, 2));
+        Subject crossed = Edge.empties(35);
+        Check.run(crossed, "0ap|p|a|b;$az;w0;1,2d;$ia|b");
+        check.same("40 lines", 40, crossed.lines());
+        check.same("two rows ahead, and two lines ahead of the last row", 4, crossed.differ(0));
+        check.same("the first line is in a pair", 3, crossed.pairOf(0, 1));
+        check.same("a line that has no row", -1, crossed.pairOf(0, 39));
+        check.same("the last line has the last row", 40, crossed.pairOf(0, 40));
     }
 
     private void ties() {
