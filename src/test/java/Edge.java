@@ -95,6 +95,44 @@ final class Edge {
         check.same(orders + " line by line: all stays", ahead, all(x));
     }
 
+    /**
+     * Each order (with the text a, b, c, of which a is marked and b present, a row held, rows in all files and in the
+     * out) changes the parts that stand behind its equals sign, and no others: text, now, marks, held, out, files 0 to 3.
+     */
+    void changesOnly(boolean byLine, String... told) {
+        String[] names = {"text", "now", "marks", "held", "out", "0", "1", "2", "3"};
+        for (String one : told) {
+            int split = one.lastIndexOf(" = ");
+            String order = one.substring(0, split);
+            String changed = one.substring(split + 2) + " ";
+            Subject x = text("a|b|c", 2);
+            Check.run(x, "1ka;3h;1w0;2w1;3w2;w3;1p;2>0");
+            String[] ahead = parts(x);
+            if (byLine) {
+                allowedByLine(x, order);
+            } else {
+                allowed(x, order);
+            }
+            String[] behind = parts(x);
+            for (int part = 0; part < names.length; part++) {
+                boolean same = ahead[part].equals(behind[part]);
+                boolean due = !changed.contains(" " + names[part] + " ");
+                check.same(order + " leaves " + names[part] + ", by line " + byLine, due ? 1 : 0, same ? 1 : 0);
+            }
+        }
+    }
+
+    private static String[] parts(Subject x) {
+        StringBuilder marks = new StringBuilder();
+        for (int mark = 0; mark < 5; mark++) {
+            marks.append(' ').append(x.mark(mark) < 0 ? -1 : x.id(x.mark(mark)));
+        }
+        return new String[] {x.lines() + " " + Check.text(x) + " " + Check.ids(x), "" + x.present(), marks.toString(),
+            Check.held(x) + " " + x.held(), Check.out(x) + " " + x.outs(), Check.file(x, 0) + " " + x.fileRows(0),
+            Check.file(x, 1) + " " + x.fileRows(1), Check.file(x, 2) + " " + x.fileRows(2),
+            Check.file(x, 3) + " " + x.fileRows(3)};
+    }
+
     /** The next line that is made gets this id; the deed of it is undone. */
     void nextId(Subject x, int due) {
         Check.run(x, "0a");

@@ -16,6 +16,7 @@ public final class EdgeByLineTest {
         test.runsToOthers();
         test.lookedAtOnce();
         test.notComeTo();
+        test.nothingElse();
         test.asForARange();
         test.dueRows();
         test.putAtOnce();
@@ -289,6 +290,18 @@ public final class EdgeByLineTest {
         plays("a|b|c|d", "2j;1,2s/$/x/", "ax|bc|d @3");
         plays("a|b|c|d", "2j;1,3s/$/x/", "ax|bcx|d @3");
         plays("a|b|c|d", "2j;1,2cx", "bc|d @2");
+    }
+
+    private void nothingElse() {
+        edge.sentence("5: what the acts do, and nothing else (the last line is the present one)");
+        edge.changesOnly(true, "p = now out", "n = now out", "= = now out", "1h = now held", "H = now held",
+            "2kb = now marks", "2ka = now marks", "1ka = now", "s/b/x/ = now text", "s/x/b/ = now", "z/b/x/ = now text",
+            "z/x/b/ = now", ">1 = now text", ">0 = now", "<1 = now", "2a = now text", "2i = now text", "2c = now text",
+            "1c = now text marks", "2d = text", "1d = text marks", "2v0 = now text", "2v1 = now", "2j = text",
+            "1j = text", "3j = now", "2u = now text", "2r0 = now text", "2e = now text held", "3e = now",
+            "1w0 = now", "2w1 = now", "w2 = now 2", "9w3 = now 3", "9p = now", "9H = now", "9w0 = now 0", "9ka = now",
+            "{p} = now out", "g/b/p = now out", "g/x/p = now", "G/./p = now", "q = now", "N = now", "b = now",
+            "bA;p;:A = now", "T = now", ":A = now", "1,2d = now text marks", "3q = now", "N;p = now out");
     }
 
     private void asForARange() {

@@ -36,6 +36,7 @@ public final class EdgeWholeTest {
         test.replacing();
         test.turning();
         test.filing();
+        test.nothingElse();
         test.meeting();
         test.groupsThatAreRefused();
         test.ending();
@@ -846,6 +847,23 @@ public final class EdgeWholeTest {
         check.same("all", 7, x.fileRows(1));
         Check.run(x, "%d;w1");
         check.same("of a text without lines", 0, x.fileRows(1));
+    }
+
+    private void nothingElse() {
+        edge.sentence("4: what the acts do, and nothing else");
+        edge.changesOnly(false, "p = out", "1p = now out", "n = out", "= = out", "3= = out", "h = held", "1h = now held",
+            "3h = now", "H = held", "3H = now held", "kb = marks", "ka = marks", "1ka = ", "s/b/x/ = text", "s/x/b/ = ",
+            "1s/x/b/ = now", "z/b/x/ = text", "3z/b/x/ = now", ">1 = text", ">0 = ", "3<1 = now", "a = now text",
+            "i = text", "1i = now text", "c = text", "1c = now text marks", "d = text", "1d = now text marks",
+            "v0 = now text", "v1 = ", "3v1 = now", "j = text", "1j = now text", "2,3j = text", "%l = now", "1,2l = ",
+            "1,2o0 = ", "1,2O0 = text", "%o0 = now", "m0 = now text", "m3 = now text", "2m2 = ", "t0 = now text",
+            "u = now text", "r1 = now text", "0r1 = now text", "e = text held", "3e = now text", "1w0 = ", "w3 = ",
+            "w2 = 2", "2w0 = 0", "{p} = out", "{w1} = 1", "g/b/p = out", "g/c/p = now out", "g/x/p = ", "G/./p = ",
+            "q = ", "b = ", "bA;p;:A = ", "T = ", ":A = ", "N = now", "1N = ", "1q = ");
+        Subject x = Edge.text("a|b|c", 2);
+        Check.run(x, "1w0;1w1;2w2;3p");
+        edge.allowed(x, "r3", "a|b|c @3");
+        check.same("a file without rows stays", 0, x.fileRows(3));
     }
 
     private void meeting() {
